@@ -12,7 +12,7 @@ public final class HomeBoard {
   private final int[] romC;
   private final int[] romK;
   private final PictureChip picture;
-  private final InterfaceChip ports;
+  private final InterfaceChip interfaceChip;
   private final Bus bus;
   private final Processor processor;
   private int cyclesInAll;
@@ -23,9 +23,9 @@ public final class HomeBoard {
     romC = new int[CHARACTERS_SIZE];
     romK = new int[LONG_ROM_SIZE];
     picture = new PictureChip(ramBytes, romC);
-    ports = new InterfaceChip();
-    bus = new Bus(ramBytes, romA, romC, romK, picture, ports);
-    processor = new Processor(bus, picture, ports);
+    interfaceChip = new InterfaceChip();
+    bus = new Bus(ramBytes, romA, romC, romK, picture, interfaceChip);
+    processor = new Processor(bus, picture, interfaceChip);
   }
 
   public boolean burn(int rom, int at, int value) {
@@ -56,7 +56,7 @@ public final class HomeBoard {
     if (r < 0 || r >= InterfaceChip.KEY_ROWS || !isByte(keys)) {
       return false;
     }
-    ports.setKeys(r, keys);
+    interfaceChip.setKeys(r, keys);
     return true;
   }
 
@@ -67,7 +67,7 @@ public final class HomeBoard {
     int made = 0;
     for (int i = 0; i < n; i++) {
       picture.beginCycle();
-      ports.countTimers();
+      interfaceChip.countTimers();
       if (processor.makeAccess(picture.wantsBus())) {
         made++;
       }
@@ -149,7 +149,7 @@ public final class HomeBoard {
     static final int ROM_A_AT = 5120;
     static final int REGISTERS_AT = 6656;
     static final int ROM_K_AT = 7168;
-    static final int PORTS_AT = 64;
+    static final int INTERFACE_AT = 64;
     static final int COLOURS_AT = 128;
 
     final int[] ramBytes;
@@ -157,18 +157,18 @@ public final class HomeBoard {
     final int[] romC;
     final int[] romK;
     final PictureChip picture;
-    final InterfaceChip ports;
+    final InterfaceChip interfaceChip;
     int port = PORT_BITS;
     int latest = NONE;
 
     Bus(int[] ramBytes, int[] romA, int[] romC, int[] romK,
-        PictureChip picture, InterfaceChip ports) {
+        PictureChip picture, InterfaceChip interfaceChip) {
       this.ramBytes = ramBytes;
       this.romA = romA;
       this.romC = romC;
       this.romK = romK;
       this.picture = picture;
-      this.ports = ports;
+      this.interfaceChip = interfaceChip;
     }
 
     /** A read that is an access: it is remembered, and clears what reading clears. */
@@ -176,8 +176,9 @@ public final class HomeBoard {
       int address = at & ADDRESS_MASK;
       latest = address;
       int value = peek(address);
-      if (showsRegisters(address) && isPortsPlace(address - REGISTERS_AT)) {
-        ports.clearBehindRead(address & 15);
+      int place = address - REGISTERS_AT;
+      if (showsRegisters(address) && isInterfacePlace(place)) {
+        interfaceChip.clearBehindRead(place & 15);
       }
       return value;
     }
@@ -190,10 +191,10 @@ public final class HomeBoard {
         port = value & PORT_BITS;
       } else if (!showsRegisters(address)) {
         ramBytes[address] = value;
-      } else if (place < PORTS_AT) {
+      } else if (place < INTERFACE_AT) {
         picture.writeRegister(place & 15, value);
-      } else if (isPortsPlace(place)) {
-        ports.writeRegister(place & 15, value);
+      } else if (isInterfacePlace(place)) {
+        interfaceChip.writeRegister(place & 15, value);
       } else {
         picture.setCellColour(place - COLOURS_AT, value);
       }
@@ -205,11 +206,11 @@ public final class HomeBoard {
       if (!showsRegisters(address)) {
         return peekMemory(address);
       }
-      if (place < PORTS_AT) {
+      if (place < INTERFACE_AT) {
         return picture.peekRegister(place & 15);
       }
-      if (isPortsPlace(place)) {
-        return ports.peekRegister(place & 15);
+      if (isInterfacePlace(place)) {
+        return interfaceChip.peekRegister(place & 15);
       }
       return picture.cellColour(place - COLOURS_AT);
     }
@@ -237,8 +238,8 @@ public final class HomeBoard {
           && (port & (PORT_L | PORT_H)) != 0 && (port & PORT_E) != 0;
     }
 
-    private static boolean isPortsPlace(int place) {
-      return place >= PORTS_AT && place < COLOURS_AT;
+    private static boolean isInterfacePlace(int place) {
+      return place >= INTERFACE_AT && place < COLOURS_AT;
     }
   }
 
@@ -702,7 +703,7 @@ public final class HomeBoard {
     int interruptsBegun;
     private final Bus bus;
     private final PictureChip picture;
-    private final InterfaceChip ports;
+    private final InterfaceChip interfaceChip;
     private int kind = BEGIN;
     /** How many accesses of this instruction have been made. */
     private int step;
@@ -713,10 +714,10 @@ public final class HomeBoard {
     /** What a branch must still add to P for its high byte to be right. */
     private int missing;
 
-    Processor(Bus bus, PictureChip picture, InterfaceChip ports) {
+    Processor(Bus bus, PictureChip picture, InterfaceChip interfaceChip) {
       this.bus = bus;
       this.picture = picture;
-      this.ports = ports;
+      this.interfaceChip = interfaceChip;
     }
 
     void restart() {
@@ -806,7 +807,7 @@ public final class HomeBoard {
     }
 
     private void begin() {
-      boolean asked = picture.asksInterrupt() || ports.asksInterrupt();
+      boolean asked = picture.asksInterrupt() || interfaceChip.asksInterrupt();
       if (asked && !registers.has(Registers.I)) {
         interruptsBegun++;
         kind = INTERRUPT;

@@ -10,6 +10,7 @@ public final class InstructionTest {
     stores();
     changes();
     branches();
+    branchesLookAtOneFlag();
     branchBytes();
     jumps();
     calls();
@@ -207,6 +208,24 @@ public final class InstructionTest {
     Bench.due(name + ": flags", b.register(4), flags);
   }
 
+  /** The flags come from the stack, by RETURN FROM INTERRUPT. */
+  private static void branchesLookAtOneFlag() {
+    int[] codes = {16, 48, 80, 112, 144, 176, 208, 240};
+    int[] looked = {128, 128, 64, 64, 1, 1, 2, 2};
+    for (int i = 0; i < 8; i++) {
+      for (int flags = 0; flags < 256; flags++) {
+        if ((flags & 48) == 0) {
+          HomeBoard b = Bench.board(64);
+          Bench.pokeAll(b, 256, flags, 0, 6);
+          Bench.pokeAll(b, 1536, codes[i], 5, 234);
+          b.run(9);
+          boolean taken = (flags & looked[i]) != 0 == (i % 2 == 1);
+          Bench.due("branch " + codes[i] + " with flags " + flags, Bench.trace(b, 1), taken ? "r1543" : "r1539");
+        }
+      }
+    }
+  }
+
   private static void branchBytes() {
     branchFrom(1024, 0, "1025 1026 1026 1027", "r1024 r1025 r1026 r1026");
     branchFrom(1024, 127, "1025 1026 1153 1154", "r1024 r1025 r1026 r1153");
@@ -260,6 +279,10 @@ public final class InstructionTest {
     follows("CALL", b, "r1024 r1025 r511 w511 w510 r1026", "A1 X2 Y3 S253 F4 P1541");
     Bench.due("CALL: high", b.ram(511), 4);
     Bench.due("CALL: low", b.ram(510), 2);
+    HomeBoard odd = Bench.boardAt(1021, 32, 5, 6);
+    odd.run(6);
+    Bench.due("CALL: low, 255", odd.ram(510), 255);
+    Bench.due("CALL: high before a new one", odd.ram(511), 3);
     Bench.due("CALL: S", Bench.follow(ready(start(1, 2, 3), 32, 5, 6), 3, 6), "255 255 255 254 253 253");
     Bench.due("CALL: P", Bench.follow(ready(start(1, 2, 3), 32, 5, 6), 5, 6), "1025 1026 1026 1026 1026 1541");
     HomeBoard wrap = ready(start(1, 2, 3), 104, 32, 5, 6);

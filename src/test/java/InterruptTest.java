@@ -37,6 +37,9 @@ public final class InterruptTest {
     Bench.due("P's low byte", b.ram(510), 5);
     Bench.due("the flags with 32", b.ram(509), 128 + 32 + 8 + 1);
     Bench.due("how many", b.interrupts(), 1);
+    HomeBoard bare = begun();
+    bare.run(7);
+    Bench.due("no flag but 32", bare.ram(509), 32);
     Bench.due("S by cycles", Bench.follow(begun(), 3, 7), "255 255 254 253 252 252 252");
     Bench.due("P by cycles", Bench.follow(begun(), 5, 7), "1025 1025 1025 1025 1025 1025 768");
     Bench.due("flags by cycles", Bench.follow(begun(), 4, 7), "0 0 0 0 4 4 4");

@@ -121,6 +121,9 @@ public final class MemoryMapTest {
         Bench.due("ROWS at mirror " + j, b.look(6720 + 16 * j), 77 + i);
       }
     }
+    Bench.write(b, 6735, 64);
+    Bench.due("the last place of the picture chip", b.look(6656 + 63), 0);
+    Bench.due("the last place of the interface chip", b.look(6656 + 127), 64);
     for (int place = 152; place < 512; place++) {
       if (place % 8 == 0 || place > 508) {
         Bench.write(b, 6656 + place, 255);
