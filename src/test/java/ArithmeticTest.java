@@ -6,7 +6,10 @@ public final class ArithmeticTest {
   private static final int V = 64;
   private static final int N = 128;
 
-  private static final HomeBoard BOARD = Bench.board(24, 216, 169, 0, 105, 0);
+  private static final int RUNS_OF_A_BOARD = 50;
+
+  private static Board board;
+  private static int runs = 0;
 
   public static void main(String[] args) {
     for (int a = 0; a < 256; a++) {
@@ -26,10 +29,13 @@ public final class ArithmeticTest {
 
   /** A and the flags but I and D, as 256 * flags + A. */
   private static int run(int code, int a, int b, int c, int d) {
-    Bench.pokeAll(BOARD, Bench.START, c == 1 ? 56 : 24, d == 1 ? 248 : 216, 169, a, code, b);
-    BOARD.power();
-    BOARD.run(8);
-    return 256 * (BOARD.register(4) & ~(4 | D)) + BOARD.register(0);
+    if (runs % RUNS_OF_A_BOARD == 0) {
+      board = new Board();
+    }
+    runs++;
+    Bench.restart(board, Bench.START, c == 1 ? 56 : 24, d == 1 ? 248 : 216, 169, a, code, b);
+    board.run(8);
+    return 256 * (board.register(4) & ~(4 | D)) + board.register(0);
   }
 
   private static void check(String name, int code, int a, int b, int c, int d, int want) {

@@ -15,7 +15,7 @@ public final class FaceTest {
   }
 
   private static void newObject() {
-    HomeBoard b = new HomeBoard();
+    Board b = new Board();
     Bench.due("new: state", Bench.state(b), "A0 X0 Y0 S255 F4 P0");
     Bench.due("new: port", b.register(6), 7);
     Bench.due("new: jammed", b.jammed(), true);
@@ -41,7 +41,7 @@ public final class FaceTest {
   }
 
   private static void newPictureAndInterface() {
-    HomeBoard b = new HomeBoard();
+    Board b = new Board();
     for (int at = 6656; at < 7168; at++) {
       int place = at - 6656;
       int want = 0;
@@ -55,7 +55,7 @@ public final class FaceTest {
   }
 
   private static void burns() {
-    HomeBoard b = new HomeBoard();
+    Board b = new Board();
     int[] sizes = {1024, 512, 1024};
     for (int rom = 0; rom < 3; rom++) {
       Bench.due("burn first of " + rom, b.burn(rom, 0, 10 + rom), true);
@@ -81,7 +81,7 @@ public final class FaceTest {
   }
 
   private static void pokes() {
-    HomeBoard b = new HomeBoard();
+    Board b = new Board();
     Bench.due("poke(0, 255)", b.poke(0, 255), true);
     Bench.due("poke(8191, 7)", b.poke(8191, 7), true);
     Bench.due("poke(1, 0)", b.poke(1, 0), true);
@@ -103,7 +103,7 @@ public final class FaceTest {
   }
 
   private static void presses() {
-    HomeBoard b = new HomeBoard();
+    Board b = new Board();
     Bench.due("press(-1, 1)", b.press(-1, 1), false);
     Bench.due("press(8, 1)", b.press(8, 1), false);
     Bench.due("press(0, 256)", b.press(0, 256), false);
@@ -119,7 +119,7 @@ public final class FaceTest {
   }
 
   private static void runs() {
-    HomeBoard b = Bench.board(76, 0, 4);
+    Board b = Bench.board(76, 0, 4);
     Bench.due("run(0)", b.run(0), -1);
     Bench.due("run(-1)", b.run(-1), -1);
     Bench.due("run(1001)", b.run(1001), -1);
@@ -133,7 +133,7 @@ public final class FaceTest {
   }
 
   private static void looks() {
-    HomeBoard b = new HomeBoard();
+    Board b = new Board();
     Bench.due("look(-1)", b.look(-1), -1);
     Bench.due("look(8192)", b.look(8192), -1);
     Bench.due("register(-1)", b.register(-1), -1);
@@ -141,7 +141,7 @@ public final class FaceTest {
   }
 
   private static void points() {
-    HomeBoard b = new HomeBoard();
+    Board b = new Board();
     Bench.due("point(-1, 0)", b.point(-1, 0), -1);
     Bench.due("point(40, 0)", b.point(40, 0), -1);
     Bench.due("point(0, -1)", b.point(0, -1), -1);
@@ -150,7 +150,7 @@ public final class FaceTest {
   }
 
   private static void counts() {
-    HomeBoard b = Bench.board(76, 0, 4);
+    Board b = Bench.board(76, 0, 4);
     for (int i = 1; i <= 5; i++) {
       b.run(960);
       Bench.due("beam behind a frame", b.beam(), 0);

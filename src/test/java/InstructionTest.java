@@ -23,8 +23,8 @@ public final class InstructionTest {
   }
 
   /** A board that has run the prefix (instructions of two cycles), with the code at 1024. */
-  private static HomeBoard ready(int[] prefix, int... code) {
-    HomeBoard b = new HomeBoard();
+  private static Board ready(int[] prefix, int... code) {
+    Board b = new Board();
     Bench.setVectors(b, AT - prefix.length);
     Bench.pokeAll(b, AT - prefix.length, prefix);
     Bench.pokeAll(b, AT, code);
@@ -40,7 +40,7 @@ public final class InstructionTest {
     return Bench.bytes(160, y, 162, x, 169, a);
   }
 
-  private static void follows(String name, HomeBoard b, String trace, String state) {
+  private static void follows(String name, Board b, String trace, String state) {
     Bench.due(name + ": accesses", Bench.trace(b, trace.split(" ").length), trace);
     Bench.due(name + ": state", Bench.state(b), state);
     int end = b.register(5) & 8191;
@@ -55,7 +55,7 @@ public final class InstructionTest {
       "A60 X7 Y3 S255 F4", "A208 X7 Y3 S255 F133", "A147 X7 Y3 S255 F133"
     };
     for (int i = 0; i < codes.length; i++) {
-      HomeBoard b = ready(start(208, 7, 3), codes[i], 200);
+      Board b = ready(start(208, 7, 3), codes[i], 200);
       b.poke(200, 60);
       follows("SHORT " + codes[i], b, "r1024 r1025 r200", states[i] + " P1026");
     }
@@ -68,34 +68,34 @@ public final class InstructionTest {
       "A170 X7 Y3 S255 F132", "A85 X7 Y3 S255 F132", "A170 X7 Y3 S255 F196"
     };
     for (int i = 0; i < codes.length; i++) {
-      HomeBoard b = ready(start(85, 7, 3), codes[i], 2, 6);
+      Board b = ready(start(85, 7, 3), codes[i], 2, 6);
       b.poke(1538, 170);
       follows("LONG " + codes[i], b, "r1024 r1025 r1026 r1538", states[i] + " P1027");
     }
-    HomeBoard far = ready(start(0, 0, 0), 173, 255, 255);
+    Board far = ready(start(0, 0, 0), 173, 255, 255);
     far.burn(2, 1023, 9);
     follows("LONG at 65535", far, "r1024 r1025 r1026 r8191", "A9 X0 Y0 S255 F4 P1027");
   }
 
   private static void longX() {
-    HomeBoard same = ready(start(1, 15, 0), 189, 240, 6);
+    Board same = ready(start(1, 15, 0), 189, 240, 6);
     same.poke(1536 + 255, 33);
     follows("LONG X, 255", same, "r1024 r1025 r1026 r1791", "A33 X15 Y0 S255 F4 P1027");
-    HomeBoard over = ready(start(1, 16, 0), 189, 240, 6);
+    Board over = ready(start(1, 16, 0), 189, 240, 6);
     over.poke(1536, 44);
     over.poke(1792, 55);
     follows("LONG X, 256", over, "r1024 r1025 r1026 r1536 r1792", "A55 X16 Y0 S255 F4 P1027");
-    HomeBoard end = ready(start(1, 255, 0), 189, 255, 255);
+    Board end = ready(start(1, 255, 0), 189, 255, 255);
     end.poke(254, 66);
     follows("LONG X over 65535", end, "r1024 r1025 r1026 r8190 r254", "A66 X255 Y0 S255 F4 P1027");
     int[] codes = {29, 61, 93, 125, 189, 221, 253};
     int[] results = {3, 2, 1, 5, 3, 2, 254};
     for (int i = 0; i < codes.length; i++) {
-      HomeBoard near = ready(start(2, 1, 0), codes[i], 0, 6);
+      Board near = ready(start(2, 1, 0), codes[i], 0, 6);
       near.poke(1537, 3);
       near.run(4);
       Bench.due("LONG X " + codes[i], near.register(0), results[i]);
-      HomeBoard crossing = ready(start(2, 1, 0), codes[i], 255, 6);
+      Board crossing = ready(start(2, 1, 0), codes[i], 255, 6);
       crossing.poke(1536, 100);
       crossing.poke(1792, 3);
       crossing.run(4);
@@ -139,13 +139,13 @@ public final class InstructionTest {
     stored("STA LONG", 130, 1541, "r1024 r1025 r1026 w1541", state + " P1027", 141, 5, 6);
     stored("STA LONG X", 130, 1557, "r1024 r1025 r1026 r1557 w1557", state + " P1027", 157, 5, 6);
     stored("STA LONG X over", 130, 1792, "r1024 r1025 r1026 r1536 w1792", state + " P1027", 157, 240, 6);
-    HomeBoard port = ready(start(253, 0, 0), 133, 1);
+    Board port = ready(start(253, 0, 0), 133, 1);
     follows("STA to the port", port, "r1024 r1025 w1", "A253 X0 Y0 S255 F132 P1026");
     Bench.due("the port", port.register(6), 5);
   }
 
   private static void stored(String name, int value, int at, String trace, String state, int... code) {
-    HomeBoard b = ready(start(130, 16, 77), code);
+    Board b = ready(start(130, 16, 77), code);
     b.poke(at, 1);
     b.poke(1536, 1);
     follows(name, b, trace, state);
@@ -159,10 +159,10 @@ public final class InstructionTest {
     change("DEC", 198, 6, 5);
     change("DEC to 0", 198, 1, 0);
     change("DEC to 255", 198, 0, 255);
-    HomeBoard b = ready(start(0, 0, 0), 230, 1);
+    Board b = ready(start(0, 0, 0), 230, 1);
     Bench.due("INC of the port", Bench.follow(b, 6, 5), "7 7 7 7 0");
     Bench.due("Z by 8, not by the port", b.register(4), 4);
-    HomeBoard c = ready(Bench.bytes(169, 0), 198, 1);
+    Board c = ready(Bench.bytes(169, 0), 198, 1);
     c.poke(AT, 133);
     c.poke(AT + 2, 198);
     c.poke(AT + 3, 1);
@@ -173,7 +173,7 @@ public final class InstructionTest {
 
   private static void change(String name, int code, int before, int behind) {
     int flags = behind == 0 ? 6 : behind > 127 ? 132 : 4;
-    HomeBoard b = ready(start(9, 9, 9), code, 200);
+    Board b = ready(start(9, 9, 9), code, 200);
     b.poke(200, before);
     b.run(3);
     Bench.due(name + ": the read", b.access(), 200);
@@ -202,7 +202,7 @@ public final class InstructionTest {
     }
   }
 
-  private static void branched(HomeBoard b, String name, boolean taken) {
+  private static void branched(Board b, String name, boolean taken) {
     int flags = b.register(4);
     Bench.due(name, Bench.trace(b, 4), taken ? "r1024 r1025 r1026 r1042" : "r1024 r1025 r1026 -");
     Bench.due(name + ": flags", b.register(4), flags);
@@ -215,7 +215,7 @@ public final class InstructionTest {
     for (int i = 0; i < 8; i++) {
       for (int flags = 0; flags < 256; flags++) {
         if ((flags & 48) == 0) {
-          HomeBoard b = Bench.board(64);
+          Board b = Bench.board(64);
           Bench.pokeAll(b, 256, flags, 0, 6);
           Bench.pokeAll(b, 1536, codes[i], 5, 234);
           b.run(9);
@@ -242,23 +242,11 @@ public final class InstructionTest {
 
   private static void branchFrom(int at, int offset, String ps, String trace) {
     for (int pass = 0; pass < 2; pass++) {
-      HomeBoard b = new HomeBoard();
-      Bench.setVectors(b, at);
-      for (int i = 0; i < 8188; i++) {
-        if (i != 1) {
-          b.poke(i, 234);
-        }
-      }
-      for (int i = 0; i < 1020; i++) {
-        b.burn(2, i, 234);
-      }
-      b.poke(at & 8191, 208);
-      b.poke(at + 1 & 8191, offset);
+      Board b = Bench.boardAt(at, 208, offset);
       if (at > 8191) {
         b.burn(2, (at & 8191) - 7168, 208);
         b.burn(2, (at + 1 & 8191) - 7168, offset);
       }
-      b.power();
       int n = trace.split(" ").length;
       String name = "branch at " + at + " by " + offset;
       if (pass == 0) {
@@ -275,61 +263,61 @@ public final class InstructionTest {
   }
 
   private static void calls() {
-    HomeBoard b = ready(start(1, 2, 3), 32, 5, 6);
+    Board b = ready(start(1, 2, 3), 32, 5, 6);
     follows("CALL", b, "r1024 r1025 r511 w511 w510 r1026", "A1 X2 Y3 S253 F4 P1541");
     Bench.due("CALL: high", b.ram(511), 4);
     Bench.due("CALL: low", b.ram(510), 2);
-    HomeBoard odd = Bench.boardAt(1021, 32, 5, 6);
+    Board odd = Bench.boardAt(1021, 32, 5, 6);
     odd.run(6);
     Bench.due("CALL: low, 255", odd.ram(510), 255);
     Bench.due("CALL: high before a new one", odd.ram(511), 3);
     Bench.due("CALL: S", Bench.follow(ready(start(1, 2, 3), 32, 5, 6), 3, 6), "255 255 255 254 253 253");
     Bench.due("CALL: P", Bench.follow(ready(start(1, 2, 3), 32, 5, 6), 5, 6), "1025 1026 1026 1026 1026 1541");
-    HomeBoard wrap = ready(start(1, 2, 3), 104, 32, 5, 6);
+    Board wrap = ready(start(1, 2, 3), 104, 32, 5, 6);
     wrap.run(4);
     Bench.due("CALL, S wraps: accesses", Bench.trace(wrap, 6), "r1025 r1026 r256 w256 w511 r1027");
     Bench.due("CALL, S wraps: S", wrap.register(3), 254);
-    HomeBoard far = Bench.boardAt(65024 - 3072, 32, 5, 6);
+    Board far = Bench.boardAt(65024 - 3072, 32, 5, 6);
     far.run(6);
     Bench.due("CALL: P's high byte of 8 bits", far.ram(511), (65024 - 3072) >> 8);
   }
 
   private static void returns() {
-    HomeBoard b = ready(start(1, 2, 3), 96);
+    Board b = ready(start(1, 2, 3), 96);
     b.poke(256, 5);
     b.poke(257, 230);
     follows("RETURN", b, "r1024 r1025 r511 r256 r257 r1541", "A1 X2 Y3 S1 F4 P58886");
-    HomeBoard c = ready(start(1, 2, 3), 96);
+    Board c = ready(start(1, 2, 3), 96);
     c.poke(256, 255);
     c.poke(257, 255);
     Bench.due("RETURN: P", Bench.follow(c, 5, 6), "1025 1025 1025 1025 65535 0");
     Bench.due("RETURN: S", Bench.follow(ready(start(1, 2, 3), 96), 3, 6), "255 255 0 1 1 1");
-    HomeBoard both = ready(start(1, 2, 3), 32, 0, 6, 2);
+    Board both = ready(start(1, 2, 3), 32, 0, 6, 2);
     both.poke(1536, 96);
     both.run(12);
     Bench.due("CALL and RETURN", Bench.state(both), "A1 X2 Y3 S255 F4 P1027");
   }
 
   private static void returnsFromInterrupt() {
-    HomeBoard b = fromInterrupt();
+    Board b = fromInterrupt();
     follows("RETURN FROM INTERRUPT", b, "r1024 r1025 r511 r256 r257 r258", "A1 X2 Y3 S2 F207 P58885");
     Bench.due("RETURN FROM INTERRUPT: P", Bench.follow(fromInterrupt(), 5, 6), "1025 1025 1025 1025 1029 58885");
     Bench.due("RETURN FROM INTERRUPT: S", Bench.follow(fromInterrupt(), 3, 6), "255 255 0 1 2 2");
     Bench.due("RETURN FROM INTERRUPT: flags", Bench.follow(fromInterrupt(), 4, 6), "4 4 4 207 207 207");
-    HomeBoard none = fromInterrupt();
+    Board none = fromInterrupt();
     none.poke(256, 48);
     none.run(6);
     Bench.due("no flag left", none.register(4), 0);
   }
 
-  private static HomeBoard fromInterrupt() {
-    HomeBoard b = ready(start(1, 2, 3), 64);
+  private static Board fromInterrupt() {
+    Board b = ready(start(1, 2, 3), 64);
     Bench.pokeAll(b, 256, 255, 5, 230);
     return b;
   }
 
   private static void pushesAndPulls() {
-    HomeBoard b = ready(start(129, 2, 3), 72);
+    Board b = ready(start(129, 2, 3), 72);
     b.run(2);
     Bench.due("PUSH: S before the write", b.register(3), 255);
     b.run(1);
@@ -340,11 +328,11 @@ public final class InstructionTest {
     int[] pulled = {0, 1, 200};
     int[] flags = {6, 4, 132};
     for (int i = 0; i < 3; i++) {
-      HomeBoard p = ready(start(77, 2, 3), 104);
+      Board p = ready(start(77, 2, 3), 104);
       p.poke(256, pulled[i]);
       follows("PULL " + pulled[i], p, "r1024 r1025 r511 r256",
           "A" + pulled[i] + " X2 Y3 S0 F" + flags[i] + " P1025");
-      HomeBoard q = ready(start(77, 2, 3), 104);
+      Board q = ready(start(77, 2, 3), 104);
       Bench.due("PULL: S", Bench.follow(q, 3, 4), "255 255 0 0");
     }
   }
@@ -384,14 +372,14 @@ public final class InstructionTest {
 
   private static void single(String name, int code, int[] prefix, String state) {
     follows(name, ready(prefix, code, 105), "r1024 r1025", state + " P1025");
-    HomeBoard b = ready(prefix, code);
+    Board b = ready(prefix, code);
     String before = Bench.state(b).replace("P1024", "P1025");
     b.run(1);
     Bench.due(name + ": the code alone changes nothing", Bench.state(b), before);
   }
 
   private static void pWraps() {
-    HomeBoard b = Bench.boardAt(65535);
+    Board b = Bench.boardAt(65535);
     b.burn(2, 1023, 169);
     b.poke(0, 7);
     Bench.due("P behind 65535", Bench.follow(b, 5, 2), "0 1");

@@ -31,12 +31,12 @@ public final class InterfaceTest {
     Bench.done();
   }
 
-  private static int count(HomeBoard b, int timer) {
+  private static int count(Board b, int timer) {
     return b.look(LOW[timer]) + 256 * b.look(HIGH[timer]);
   }
 
   private static void keyboard() {
-    HomeBoard b = new HomeBoard();
+    Board b = new Board();
     for (int r = 0; r < 8; r++) {
       b.press(r, 1 << r);
     }
@@ -60,7 +60,7 @@ public final class InterfaceTest {
   }
 
   private static void othersReadNothing() {
-    HomeBoard b = new HomeBoard();
+    Board b = new Board();
     int[] others = {2, 3, 8, 9, 10, 11, 12};
     for (int which : others) {
       Bench.write(b, Bench.INTERFACE + which, 255);
@@ -69,7 +69,7 @@ public final class InterfaceTest {
   }
 
   private static void controlsAreGivenBack() {
-    HomeBoard b = new HomeBoard();
+    Board b = new Board();
     Bench.write(b, CONTROL[0], 255);
     Bench.write(b, CONTROL[1], 255);
     Bench.due("control of A", b.look(CONTROL[0]), RUN + ONCE);
@@ -81,7 +81,7 @@ public final class InterfaceTest {
   }
 
   private static void latchAndCount(int timer) {
-    HomeBoard b = new HomeBoard();
+    Board b = new Board();
     Bench.due("count at first", count(b, timer), 65535);
     Bench.write(b, LOW[timer], 18);
     Bench.due("the low byte alone", count(b, timer), 65535);
@@ -94,14 +94,14 @@ public final class InterfaceTest {
     Bench.due("the high byte anew", count(b, timer), 7 * 256 + 18);
     Bench.due("low byte read", Bench.read(b, LOW[timer]), 18);
     Bench.due("high byte read", Bench.read(b, HIGH[timer]), 7);
-    HomeBoard high = new HomeBoard();
+    Board high = new Board();
     Bench.write(high, HIGH[timer], 1);
     Bench.due("the low byte of the first latch", count(high, timer), 511);
   }
 
   /** Sets a latch and a control; one cycle has passed behind the write of the control. */
-  private static HomeBoard running(int timer, int latch, int control) {
-    HomeBoard b = new HomeBoard();
+  private static Board running(int timer, int latch, int control) {
+    Board b = new Board();
     Bench.write(b, LOW[timer], latch % 256);
     Bench.write(b, HIGH[timer], latch / 256);
     Bench.write(b, CONTROL[timer], control);
@@ -109,7 +109,7 @@ public final class InterfaceTest {
   }
 
   private static void countsDown(int timer) {
-    HomeBoard b = running(timer, 259, RUN);
+    Board b = running(timer, 259, RUN);
     Bench.due("the cycle behind the write counts", count(b, timer), 258);
     b.run(2);
     Bench.due("256", count(b, timer), 256);
@@ -129,7 +129,7 @@ public final class InterfaceTest {
   }
 
   private static void once(int timer) {
-    HomeBoard b = running(timer, 3, RUN + ONCE);
+    Board b = running(timer, 3, RUN + ONCE);
     b.run(2);
     Bench.due("once: 0", count(b, timer), 0);
     Bench.due("once: it runs", b.look(CONTROL[timer]), RUN + ONCE);
@@ -142,7 +142,7 @@ public final class InterfaceTest {
   }
 
   private static void latchOfNothing(int timer) {
-    HomeBoard b = running(timer, 0, RUN);
+    Board b = running(timer, 0, RUN);
     Bench.due("latch 0: flag at once", b.look(FLAGS), 1 + timer);
     Bench.due("latch 0: read", Bench.read(b, FLAGS), 1 + timer);
     b.run(1);
@@ -151,7 +151,7 @@ public final class InterfaceTest {
   }
 
   private static void reload(int timer) {
-    HomeBoard b = running(timer, 500, RUN);
+    Board b = running(timer, 500, RUN);
     b.run(100);
     Bench.write(b, CONTROL[timer], RUN + RELOAD);
     Bench.due("reload", count(b, timer), 499);
@@ -167,7 +167,7 @@ public final class InterfaceTest {
   }
 
   private static void highByteWhileItRuns(int timer) {
-    HomeBoard b = running(timer, 1000, RUN);
+    Board b = running(timer, 1000, RUN);
     int before = count(b, timer);
     Bench.write(b, HIGH[timer], 0);
     Bench.due("the count goes on", count(b, timer), before - 7);
@@ -178,7 +178,7 @@ public final class InterfaceTest {
   }
 
   private static void cascade() {
-    HomeBoard b = new HomeBoard();
+    Board b = new Board();
     Bench.write(b, LOW[0], 9);
     Bench.write(b, HIGH[0], 0);
     Bench.write(b, LOW[1], 2);
@@ -205,7 +205,7 @@ public final class InterfaceTest {
 
   /** A stands at 0 but does not run; and A's last fall with ONCE counts for B. */
   private static void cascadeOfALonelyB() {
-    HomeBoard b = running(0, 0, 0);
+    Board b = running(0, 0, 0);
     Bench.write(b, LOW[1], 5);
     Bench.write(b, HIGH[1], 0);
     Bench.write(b, CONTROL[1], RUN + CASCADE);
@@ -223,7 +223,7 @@ public final class InterfaceTest {
   }
 
   private static void flagsAndEnables() {
-    HomeBoard b = running(0, 0, RUN + ONCE);
+    Board b = running(0, 0, RUN + ONCE);
     Bench.due("A, not enabled", b.look(FLAGS), 1);
     Bench.write(b, FLAGS, 130);
     Bench.due("B enabled", b.look(FLAGS), 1);
@@ -248,21 +248,20 @@ public final class InterfaceTest {
   }
 
   private static void readingClears() {
-    HomeBoard b = running(0, 0, RUN + ONCE);
+    Board b = running(0, 0, RUN + ONCE);
     Bench.write(b, FLAGS, 129);
     Bench.due("read", Bench.read(b, FLAGS), 129);
     Bench.due("cleared", b.look(FLAGS), 0);
-    HomeBoard mirror = running(1, 0, RUN + ONCE);
+    Board mirror = running(1, 0, RUN + ONCE);
     Bench.due("read at a mirror", Bench.read(mirror, FLAGS + 48), 2);
     Bench.due("cleared", mirror.look(FLAGS), 0);
-    HomeBoard others = running(0, 0, RUN + ONCE);
     for (int at = Bench.PICTURE; at < Bench.PICTURE + 256; at++) {
       boolean clears = at >= Bench.INTERFACE && at < Bench.COLOURS && at % 16 == 13;
-      if (!clears) {
-        Bench.read(others, at);
-        Bench.due("read at " + at, others.look(FLAGS), 1);
-      }
+      Board one = running(0, 0, RUN + ONCE);
+      Bench.read(one, at);
+      Bench.due("read at " + at, one.look(FLAGS), clears ? 0 : 1);
     }
+    Board others = running(0, 0, RUN + ONCE);
     Bench.write(others, 1, 3);
     Bench.read(others, FLAGS);
     Bench.write(others, 1, 4);
@@ -273,13 +272,13 @@ public final class InterfaceTest {
 
   /** The read before the carry, and that before STA's write, are accesses like others. */
   private static void emptyReadsClearToo() {
-    HomeBoard b = running(0, 0, RUN + ONCE);
+    Board b = running(0, 0, RUN + ONCE);
     Bench.restart(b, Bench.START, 162, 1, 157, FLAGS - 1 & 255, FLAGS - 1 >> 8);
     b.run(5);
     Bench.due("before STA's empty read", b.look(FLAGS), 1);
     b.run(1);
     Bench.due("behind STA's empty read", b.look(FLAGS), 0);
-    HomeBoard c = running(0, 0, RUN + ONCE);
+    Board c = running(0, 0, RUN + ONCE);
     Bench.restart(c, Bench.START, 162, 128, 189, FLAGS + 128 & 255, FLAGS >> 8);
     c.run(5);
     Bench.due("before the read before the carry", c.look(FLAGS), 1);

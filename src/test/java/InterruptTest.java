@@ -21,15 +21,15 @@ public final class InterruptTest {
   }
 
   /** The flag of line 0 stands and is enabled; I is set. */
-  private static HomeBoard asked(int... program) {
-    HomeBoard b = new HomeBoard();
+  private static Board asked(int... program) {
+    Board b = new Board();
     Bench.write(b, ENABLE, 1);
     Bench.restart(b, Bench.START, program);
     return b;
   }
 
   private static void sequence() {
-    HomeBoard b = asked(56, 248, 169, 200, 88, 234);
+    Board b = asked(56, 248, 169, 200, 88, 234);
     b.run(8);
     Bench.due("before", b.interrupts(), 0);
     Bench.due("accesses", Bench.trace(b, 8), "r1029 r1029 w511 w510 w509 r8190 r8191 r768");
@@ -37,13 +37,13 @@ public final class InterruptTest {
     Bench.due("P's low byte", b.ram(510), 5);
     Bench.due("the flags with 32", b.ram(509), 128 + 32 + 8 + 1);
     Bench.due("how many", b.interrupts(), 1);
-    HomeBoard bare = begun();
+    Board bare = begun();
     bare.run(7);
     Bench.due("no flag but 32", bare.ram(509), 32);
     Bench.due("S by cycles", Bench.follow(begun(), 3, 7), "255 255 254 253 252 252 252");
     Bench.due("P by cycles", Bench.follow(begun(), 5, 7), "1025 1025 1025 1025 1025 1025 768");
     Bench.due("flags by cycles", Bench.follow(begun(), 4, 7), "0 0 0 0 4 4 4");
-    HomeBoard c = begun();
+    Board c = begun();
     Bench.due("not begun", c.interrupts(), 0);
     c.run(1);
     Bench.due("begun with its first access", c.interrupts(), 1);
@@ -52,30 +52,30 @@ public final class InterruptTest {
   }
 
   /** An interrupt is next. */
-  private static HomeBoard begun() {
-    HomeBoard b = asked(88, 234);
+  private static Board begun() {
+    Board b = asked(88, 234);
     b.run(2);
     return b;
   }
 
   private static void stackWraps() {
-    HomeBoard b = asked(104, 88, 234);
+    Board b = asked(104, 88, 234);
     b.run(6);
     Bench.due("S wraps", Bench.trace(b, 7), "r1026 r1026 w256 w511 w510 r8190 r8191");
     Bench.due("S", b.register(3), 253);
   }
 
   private static void notWithI() {
-    HomeBoard b = asked(234, 234, 76, 0, 4);
+    Board b = asked(234, 234, 76, 0, 4);
     b.run(500);
     Bench.due("with I set", b.interrupts(), 0);
-    HomeBoard c = new HomeBoard();
+    Board c = new Board();
     c.run(1);
     Bench.restart(c, Bench.START, 88, 76, 1, 4);
     c.run(500);
     Bench.due("flag set", c.look(FLAG), 1);
     Bench.due("not enabled", c.interrupts(), 0);
-    HomeBoard d = new HomeBoard();
+    Board d = new Board();
     Bench.write(d, ENABLE, 1);
     Bench.write(d, FLAG, 1);
     Bench.restart(d, Bench.START, 88, 76, 1, 4);
@@ -86,7 +86,7 @@ public final class InterruptTest {
   private static void eachSource() {
     for (int flag = 1; flag <= 2; flag++) {
       for (int enabled = 0; enabled < 4; enabled++) {
-        HomeBoard b = new HomeBoard();
+        Board b = new Board();
         int control = Bench.INTERFACE + 13 + flag;
         Bench.write(b, Bench.INTERFACE + 2 + 2 * flag, 0);
         Bench.write(b, Bench.INTERFACE + 3 + 2 * flag, 0);
@@ -102,13 +102,13 @@ public final class InterruptTest {
 
   /** A handler that clears nothing is entered again behind its return. */
   private static void againAndAgain() {
-    HomeBoard b = asked(88, 234, 234, 234, 234, 234);
+    Board b = asked(88, 234, 234, 234, 234, 234);
     b.poke(Bench.HANDLER, 64);
     b.run(2);
     Bench.due("returned", Bench.trace(b, 14),
         "r1025 r1025 w511 w510 w509 r8190 r8191 r768 r769 r508 r509 r510 r511 r1025");
     Bench.due("the second begins with the first access behind it", b.interrupts(), 2);
-    HomeBoard c = asked(88, 76, 1, 4);
+    Board c = asked(88, 76, 1, 4);
     Bench.pokeAll(c, Bench.HANDLER, 72, 169, 1, 141, FLAG & 255, FLAG >> 8, 230, 40, 104, 64);
     Bench.runCycles(c, 960 * 3 + 40);
     Bench.due("one a frame", c.interrupts(), 4);
@@ -119,7 +119,7 @@ public final class InterruptTest {
   /** The flag is set in cycle 0 before the processor: an instruction that begins there is put off. */
   private static void lookedAtWithTheFirstAccess() {
     for (int early = 0; early < 2; early++) {
-      HomeBoard b = new HomeBoard();
+      Board b = new Board();
       Bench.write(b, ENABLE, 1);
       Bench.write(b, FLAG, 1);
       Bench.write(b, RASTER, 20);
@@ -137,7 +137,7 @@ public final class InterruptTest {
 
   /** The code's read waits for the bus in line 9; the timer's flag comes in meanwhile. */
   private static void waitingInstructionSeesIt() {
-    HomeBoard b = new HomeBoard();
+    Board b = new Board();
     Bench.write(b, Bench.PICTURE, 17);
     Bench.write(b, Bench.INTERFACE + 4, 9);
     Bench.write(b, Bench.INTERFACE + 5, 0);
@@ -157,7 +157,7 @@ public final class InterruptTest {
   }
 
   private static void onlyBetweenInstructions() {
-    HomeBoard b = new HomeBoard();
+    Board b = new Board();
     Bench.write(b, ENABLE, 1);
     Bench.write(b, FLAG, 1);
     Bench.write(b, RASTER, 20);
@@ -168,7 +168,7 @@ public final class InterruptTest {
   }
 
   private static void vectorByTheMap() {
-    HomeBoard b = asked(169, 4, 133, 1, 88, 234);
+    Board b = asked(169, 4, 133, 1, 88, 234);
     b.poke(8190, 33);
     b.poke(8191, 225);
     b.run(14);
@@ -176,7 +176,7 @@ public final class InterruptTest {
   }
 
   private static void farP() {
-    HomeBoard b = new HomeBoard();
+    Board b = new Board();
     Bench.write(b, ENABLE, 1);
     Bench.restart(b, 512 + 8192 * 7, 88, 234);
     b.run(9);
@@ -185,7 +185,7 @@ public final class InterruptTest {
   }
 
   private static void countSincePower() {
-    HomeBoard b = begun();
+    Board b = begun();
     b.run(3);
     Bench.due("one", b.interrupts(), 1);
     b.power();
@@ -194,7 +194,7 @@ public final class InterruptTest {
   }
 
   private static void jammed() {
-    HomeBoard b = new HomeBoard();
+    Board b = new Board();
     Bench.write(b, RASTER, 20);
     Bench.write(b, FLAG, 1);
     Bench.write(b, ENABLE, 1);

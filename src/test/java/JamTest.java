@@ -29,7 +29,7 @@ public final class JamTest {
   }
 
   private static void jams(int code) {
-    HomeBoard b = Bench.board(code, 234, 234);
+    Board b = Bench.board(code, 234, 234);
     Bench.due("jammed before " + code, b.jammed(), false);
     Bench.due("run(5) of " + code, b.run(5), 1);
     Bench.due("jammed by " + code, b.jammed(), true);
@@ -38,13 +38,9 @@ public final class JamTest {
     Bench.due("stolen by " + code, b.stolen(), 0);
   }
 
-  /** Wherever P is behind the instruction stands a code that jams: 2, or 15 behind one of a single byte. */
+  /** Wherever P is behind the instruction stands a code that jams: 15, 7, or the 0 of empty RAM. */
   private static void makes(int code, int accesses) {
-    HomeBoard b = new HomeBoard();
-    for (int i = 0; i < 8192; i++) {
-      b.poke(i, Bench.JAM);
-    }
-    Bench.restart(b, Bench.START, code, 15, 7);
+    Board b = Bench.board(code, 15, 7);
     Bench.due("run of " + code, b.run(accesses), accesses);
     Bench.due("not jammed by " + code, b.jammed(), false);
     b.run(1);

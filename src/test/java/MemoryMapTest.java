@@ -17,29 +17,26 @@ public final class MemoryMapTest {
     Bench.done();
   }
 
-  private static HomeBoard marked(int port) {
-    HomeBoard b = new HomeBoard();
+  private static Board marked(int port) {
+    Board b = new Board();
     for (int i = 0; i < PLACES.length; i++) {
       b.poke(PLACES[i], 100 + i);
     }
-    for (int i = 0; i < 1020; i++) {
-      b.burn(0, i, 1 + i % 50);
-      b.burn(2, i, 51 + i % 49);
-      if (i < 512) {
-        b.burn(1, i, 200 + i % 50);
-      }
+    for (int at : PLACES) {
+      b.burn(0, at - 5120, 1 + (at - 5120) % 50);
+      b.burn(1, at - 6656, 200 + (at - 6656) % 50);
+      b.burn(2, at - 7168, 51 + (at - 7168) % 49);
     }
-    b.burn(0, 1023, 99);
     Bench.write(b, 1, port);
     return b;
   }
 
-  private static int wanted(HomeBoard b, int port, int at) {
+  private static int wanted(Board b, int port, int at) {
     boolean low = port % 2 == 1;
     boolean high = port / 2 % 2 == 1;
     boolean registers = port >= 4;
     if (at >= 5120 && at <= 6143 && low && high) {
-      return at == 6143 ? 99 : 1 + (at - 5120) % 50;
+      return 1 + (at - 5120) % 50;
     }
     if (at == 8191 && high) {
       return Bench.HANDLER >> 8;
@@ -54,7 +51,7 @@ public final class MemoryMapTest {
   }
 
   private static void reads(int port) {
-    HomeBoard b = marked(port);
+    Board b = marked(port);
     Bench.due("port", b.register(6), port);
     Bench.due("look(1)", b.look(1), port);
     Bench.due("read 1", Bench.read(b, 1), port);
@@ -68,7 +65,7 @@ public final class MemoryMapTest {
   }
 
   private static void writes(int port) {
-    HomeBoard b = marked(port);
+    Board b = marked(port);
     int romA = b.look(5120);
     for (int at : PLACES) {
       boolean toRegisters = at >= 6656 && at <= 7167 && port % 4 != 0 && port >= 4;
@@ -86,7 +83,7 @@ public final class MemoryMapTest {
   }
 
   private static void portKeepsThreeBits() {
-    HomeBoard b = new HomeBoard();
+    Board b = new Board();
     b.poke(1, 77);
     Bench.write(b, 1, 253);
     Bench.due("port behind 253", b.register(6), 5);
@@ -97,12 +94,12 @@ public final class MemoryMapTest {
   }
 
   private static void addressesWrap() {
-    HomeBoard b = Bench.board(169, 9, 141, 5, 32 * 3 + 4, 173, 5, 224 + 4);
+    Board b = Bench.board(169, 9, 141, 5, 32 * 3 + 4, 173, 5, 224 + 4);
     b.run(6);
     Bench.due("ram(1029) by 24576 + 1029", b.ram(1029), 9);
     Bench.due("access", b.access(), 1029 + 8192);
     b.run(2);
-    HomeBoard c = Bench.boardAt(8191, 234);
+    Board c = Bench.boardAt(8191, 234);
     c.burn(2, 1023, 169);
     c.poke(0, 55);
     c.power();
@@ -112,7 +109,7 @@ public final class MemoryMapTest {
   }
 
   private static void mirrors() {
-    HomeBoard b = new HomeBoard();
+    Board b = new Board();
     for (int i = 0; i < 4; i++) {
       Bench.write(b, 6656 + 16 * i + 2, 3 + i);
       Bench.write(b, 6720 + 16 * i, 77 + i);
@@ -124,10 +121,9 @@ public final class MemoryMapTest {
     Bench.write(b, 6735, 64);
     Bench.due("the last place of the picture chip", b.look(6656 + 63), 0);
     Bench.due("the last place of the interface chip", b.look(6656 + 127), 64);
+    Bench.fill(b, 6656 + 152, 180, 255);
+    Bench.fill(b, 6656 + 332, 180, 255);
     for (int place = 152; place < 512; place++) {
-      if (place % 8 == 0 || place > 508) {
-        Bench.write(b, 6656 + place, 255);
-      }
       Bench.due("place " + place, b.look(6656 + place), 0);
     }
     Bench.due("GROUND behind writes elsewhere", b.look(6658), 6);
@@ -135,10 +131,12 @@ public final class MemoryMapTest {
   }
 
   private static void colours() {
-    HomeBoard b = new HomeBoard();
+    Board b = new Board();
+    int[] bytes = new int[24];
     for (int i = 0; i < 24; i++) {
-      Bench.write(b, 6784 + i, 240 + (i * 5 + 3) % 16);
+      bytes[i] = 240 + (i * 5 + 3) % 16;
     }
+    Bench.writeAll(b, 6784, bytes);
     for (int i = 0; i < 24; i++) {
       Bench.due("colour " + i, b.look(6784 + i), (i * 5 + 3) % 16);
       Bench.due("colour " + i + " read", Bench.read(b, 6784 + i), (i * 5 + 3) % 16);
@@ -147,7 +145,7 @@ public final class MemoryMapTest {
   }
 
   private static void lookClearsNothing() {
-    HomeBoard b = new HomeBoard();
+    Board b = new Board();
     Bench.write(b, 6724, 0);
     Bench.write(b, 6725, 0);
     Bench.write(b, 6734, 9);

@@ -36,12 +36,12 @@ public final class PictureTest {
   }
 
   private static void registers() {
-    HomeBoard b = new HomeBoard();
     int[] kept = {23, 0, 15, 15, 0, 1, 15, 0, 0, 0, 0, 0, 0, 0, 0, 0};
     for (int which = 0; which < 16; which++) {
       if (which == 1 || which == 4) {
         continue;
       }
+      Board b = new Board();
       Bench.write(b, Bench.PICTURE + which, 255);
       Bench.due("picture register " + which, b.look(Bench.PICTURE + which), kept[which]);
       Bench.write(b, Bench.PICTURE + which, 0);
@@ -52,16 +52,19 @@ public final class PictureTest {
   }
 
   private static void lineIsRead() {
-    HomeBoard b = new HomeBoard();
-    for (int i = 0; i < 1920; i++) {
-      Bench.due("beam", b.beam(), i % 960);
-      Bench.due("line", b.look(RASTER), i % 960 / 24);
-      b.run(1);
+    for (int line = 0; line < 80; line++) {
+      Board b = new Board();
+      Bench.runCycles(b, 24 * line);
+      for (int cycle = 0; cycle < 24; cycle++) {
+        Bench.due("beam", b.beam(), line % 40 * 24 + cycle);
+        Bench.due("line", b.look(RASTER), line % 40);
+        b.run(1);
+      }
     }
   }
 
   private static void rasterFlag() {
-    HomeBoard b = new HomeBoard();
+    Board b = new Board();
     Bench.due("flag before line 0", b.look(FLAG), 0);
     b.run(1);
     Bench.due("flag in line 0", b.look(FLAG), 1);
@@ -91,7 +94,7 @@ public final class PictureTest {
   }
 
   private static void borderEverywhere() {
-    HomeBoard b = new HomeBoard();
+    Board b = new Board();
     Bench.write(b, BORDER, 5);
     Bench.write(b, GROUND, 6);
     b.run(960);
@@ -103,7 +106,7 @@ public final class PictureTest {
   }
 
   private static void pointsComeByEights() {
-    HomeBoard b = new HomeBoard();
+    Board b = new Board();
     Bench.write(b, BORDER, 9);
     Bench.runTo(b, 2, 0);
     for (int cycle = 0; cycle < 24; cycle++) {
@@ -117,16 +120,18 @@ public final class PictureTest {
   }
 
   /** Codes, colours and glyphs that differ everywhere, the chip on; the beam is at 35, 0. */
-  private static HomeBoard lively(int shift, int base) {
-    HomeBoard b = new HomeBoard();
-    for (int i = 0; i < 512; i++) {
-      b.burn(1, i, glyph(i));
-    }
+  private static Board lively(int shift, int base) {
+    Board b = new Board();
+    int[] colours = new int[24];
     for (int i = 0; i < 24; i++) {
-      Bench.write(b, Bench.COLOURS + i, colour(i));
+      colours[i] = colour(i);
+      for (int glyphLine = 0; glyphLine < 8; glyphLine++) {
+        int at = 8 * (code(i) % 64) + glyphLine;
+        b.burn(1, at, glyph(at));
+      }
     }
-    Bench.write(b, GROUND, GROUND_COLOUR);
-    Bench.write(b, BORDER, BORDER_COLOUR);
+    Bench.writeAll(b, Bench.COLOURS, colours);
+    Bench.writeAll(b, GROUND, GROUND_COLOUR, BORDER_COLOUR);
     Bench.write(b, BASE, base);
     Bench.write(b, CONTROL, ON + shift);
     for (int i = 0; i < 24; i++) {
@@ -153,21 +158,21 @@ public final class PictureTest {
     return (bits >> (7 - x % 8)) % 2 == 1 ? colour(cell) : GROUND_COLOUR;
   }
 
-  private static void lineShows(String name, HomeBoard b, int line, int row, int glyphLine) {
+  private static void lineShows(String name, Board b, int line, int row, int glyphLine) {
     for (int x = 0; x < 64; x++) {
       Bench.due(name + ": point(" + line + ", " + x + ")", b.point(line, x),
           cellPoint(8 * row + x / 8, glyphLine, x));
     }
   }
 
-  private static void lineIs(String name, HomeBoard b, int line, int colour) {
+  private static void lineIs(String name, Board b, int line, int colour) {
     for (int x = 0; x < 64; x++) {
       Bench.due(name + ": point(" + line + ", " + x + ")", b.point(line, x), colour);
     }
   }
 
   private static void wholeFrame(int shift, int base) {
-    HomeBoard b = lively(shift, base);
+    Board b = lively(shift, base);
     b.run(960);
     String name = "shift " + shift + ", base " + base;
     for (int line = 0; line < 40; line++) {
@@ -183,7 +188,7 @@ public final class PictureTest {
   }
 
   private static void fetchesInTheirCycles() {
-    HomeBoard b = lively(0, 7);
+    Board b = lively(0, 7);
     Bench.runTo(b, 8, 10);
     for (int k = 0; k < 8; k++) {
       b.poke(64 * 7 + k, code(8 + k));
@@ -198,7 +203,7 @@ public final class PictureTest {
   }
 
   private static void rowStaysBehindItsFetch() {
-    HomeBoard b = lively(1, 7);
+    Board b = lively(1, 7);
     Bench.runTo(b, 9, 14);
     for (int i = 0; i < 24; i++) {
       b.poke(64 * 7 + i, 0);
@@ -211,10 +216,10 @@ public final class PictureTest {
   }
 
   private static void romIsReadWhenShown() {
-    HomeBoard b = lively(1, 7);
+    Board b = lively(1, 7);
     Bench.runTo(b, 12, 6);
-    for (int i = 0; i < 512; i++) {
-      b.burn(1, i, 255);
+    for (int k = 0; k < 8; k++) {
+      b.burn(1, 8 * (code(k) % 64) + 3, 255);
     }
     Bench.runTo(b, 12, 14);
     for (int x = 0; x < 64; x++) {
@@ -224,7 +229,7 @@ public final class PictureTest {
   }
 
   private static void idleBehindEightLines() {
-    HomeBoard b = lively(0, 7);
+    Board b = lively(0, 7);
     Bench.runTo(b, 9, 0);
     Bench.write(b, CONTROL, ON + 7);
     Bench.runTo(b, 10, 0);
@@ -246,7 +251,7 @@ public final class PictureTest {
 
   /** A bad line in each of eight lines: the fourth row is the first again. */
   private static void moreThanThreeRows() {
-    HomeBoard b = lively(0, 7);
+    Board b = lively(0, 7);
     for (int line = 9; line < 16; line++) {
       Bench.writeIn(b, line - 1, 21, CONTROL, ON + line % 8);
     }
@@ -258,7 +263,7 @@ public final class PictureTest {
   }
 
   private static void rowsCountFromTheFramesStart() {
-    HomeBoard b = lively(0, 7);
+    Board b = lively(0, 7);
     Bench.writeIn(b, 20, 20, CONTROL, ON + 6);
     Bench.runTo(b, 32, 0);
     lineShows("third row of the frame", b, 22, 2, 0);
@@ -270,7 +275,7 @@ public final class PictureTest {
   }
 
   private static void onInTheMiddle() {
-    HomeBoard b = lively(0, 7);
+    Board b = lively(0, 7);
     Bench.write(b, CONTROL, 0);
     Bench.runTo(b, 5, 0);
     Bench.writeIn(b, 12, 9, CONTROL, ON);
@@ -285,7 +290,7 @@ public final class PictureTest {
 
   /** The glyph line grows while ON is not set, too. */
   private static void offInTheMiddle() {
-    HomeBoard b = lively(0, 7);
+    Board b = lively(0, 7);
     Bench.writeIn(b, 10, 20, CONTROL, 0);
     Bench.writeIn(b, 12, 20, CONTROL, ON);
     Bench.runTo(b, 16, 0);
@@ -297,19 +302,19 @@ public final class PictureTest {
 
   /** A write in cycle 2 counts; one in cycle 3 comes too late, either way. */
   private static void badIsJudgedInCycleThree() {
-    HomeBoard early = lively(7, 7);
+    Board early = lively(7, 7);
     Bench.writeIn(early, 9, 2, CONTROL, ON + 1);
     Bench.runTo(early, 10, 0);
     lineShows("in cycle 2", early, 9, 0, 0);
-    HomeBoard late = lively(7, 7);
+    Board late = lively(7, 7);
     Bench.writeIn(late, 9, 3, CONTROL, ON + 1);
     Bench.runTo(late, 10, 0);
     lineIs("in cycle 3", late, 9, GROUND_COLOUR);
-    HomeBoard away = lively(1, 7);
+    Board away = lively(1, 7);
     Bench.writeIn(away, 9, 3, CONTROL, ON + 5);
     Bench.runTo(away, 10, 0);
     lineShows("bad still", away, 9, 0, 0);
-    HomeBoard off = lively(1, 7);
+    Board off = lively(1, 7);
     Bench.writeIn(off, 9, 3, CONTROL, 1);
     Bench.runTo(off, 10, 0);
     lineIs("off in cycle 3", off, 9, BORDER_COLOUR);
@@ -319,7 +324,7 @@ public final class PictureTest {
   }
 
   private static void groundAndBorderOfNow() {
-    HomeBoard b = lively(0, 7);
+    Board b = lively(0, 7);
     Bench.writeIn(b, 33, 9, BORDER, 14);
     Bench.runTo(b, 34, 0);
     Bench.due("border before", b.point(33, 31), BORDER_COLOUR);

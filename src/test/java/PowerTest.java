@@ -10,7 +10,7 @@ public final class PowerTest {
   }
 
   private static void startWord() {
-    HomeBoard b = new HomeBoard();
+    Board b = new Board();
     b.burn(2, 1020, 52);
     b.burn(2, 1021, 254);
     b.power();
@@ -25,7 +25,7 @@ public final class PowerTest {
   }
 
   private static void byTheMapOfNow() {
-    HomeBoard b = Bench.board(169, 5, 133, 1, 2);
+    Board b = Bench.board(169, 5, 133, 1, 2);
     b.poke(8188, 17);
     b.poke(8189, 3);
     b.run(6);
@@ -36,7 +36,7 @@ public final class PowerTest {
   }
 
   private static void processorIsNew() {
-    HomeBoard b = Bench.board(169, 200, 162, 201, 160, 202, 56, 248, 88, 72, 2);
+    Board b = Bench.board(169, 200, 162, 201, 160, 202, 56, 248, 88, 72, 2);
     b.run(16);
     Bench.due("before", Bench.state(b), "A200 X201 Y202 S254 F137 P1035");
     Bench.due("jammed before", b.jammed(), true);
@@ -49,7 +49,7 @@ public final class PowerTest {
   }
 
   private static void inTheMiddleOfAnInstruction() {
-    HomeBoard b = Bench.board(141, 0, 6);
+    Board b = Bench.board(141, 0, 6);
     b.run(3);
     b.power();
     Bench.due("begins anew", Bench.trace(b, 4), "r1024 r1025 r1026 w1536");
@@ -58,7 +58,7 @@ public final class PowerTest {
   }
 
   private static void allElseStays() {
-    HomeBoard b = new HomeBoard();
+    Board b = new Board();
     b.press(3, 9);
     Bench.write(b, 6658, 11);
     Bench.write(b, 6659, 12);

@@ -18,8 +18,8 @@ public final class StolenTest {
   }
 
   /** A board that is on, with bad lines 9, 17 and 25, the beam n cycles before cycle 3 of line 9. */
-  private static HomeBoard before(int n, int... program) {
-    HomeBoard b = new HomeBoard();
+  private static Board before(int n, int... program) {
+    Board b = new Board();
     Bench.write(b, CONTROL, 17);
     Bench.runTo(b, BAD_LINE - 1, 0);
     Bench.runTo(b, BAD_LINE, 3 - n);
@@ -32,7 +32,7 @@ public final class StolenTest {
   }
 
   private static void cyclesOfABadLine() {
-    HomeBoard b = before(3, 76, 0, 4);
+    Board b = before(3, 76, 0, 4);
     for (int cycle = 0; cycle < 24; cycle++) {
       boolean wanted = cycle >= 3 && cycle <= 13;
       int access = b.access();
@@ -46,7 +46,7 @@ public final class StolenTest {
 
   private static void onlyBadLines() {
     for (int shift = 0; shift < 8; shift++) {
-      HomeBoard b = new HomeBoard();
+      Board b = new Board();
       Bench.write(b, CONTROL, 16 + shift);
       Bench.runTo(b, 0, 0);
       Bench.restart(b, Bench.START, 76, 0, 4);
@@ -56,7 +56,7 @@ public final class StolenTest {
       }
       Bench.due("stolen in a frame", b.stolen(), 33);
     }
-    HomeBoard off = new HomeBoard();
+    Board off = new Board();
     Bench.write(off, CONTROL, 7);
     Bench.restart(off, Bench.START, 76, 0, 4);
     Bench.due("off", off.run(960), 960);
@@ -64,7 +64,7 @@ public final class StolenTest {
   }
 
   private static void countsSincePower() {
-    HomeBoard b = before(0, 76, 0, 4);
+    Board b = before(0, 76, 0, 4);
     b.run(5);
     Bench.due("stolen", b.stolen(), 5);
     Bench.due("access before the first", b.access(), -1);
@@ -75,10 +75,10 @@ public final class StolenTest {
   }
 
   private static void jammedWaitsForNothing() {
-    HomeBoard b = before(1, Bench.JAM);
+    Board b = before(1, Bench.JAM);
     Bench.due("run(24)", b.run(24), 1);
     Bench.due("stolen", b.stolen(), 0);
-    HomeBoard early = before(0, Bench.JAM);
+    Board early = before(0, Bench.JAM);
     Bench.due("run(11)", early.run(11), 0);
     Bench.due("not jammed while it waits", early.jammed(), false);
     Bench.due("stolen", early.stolen(), 11);
@@ -88,7 +88,7 @@ public final class StolenTest {
 
   /** What stands in the text begins n cycles before the bus is wanted. */
   private static void goes(String name, int n, String trace, int stolen, int... program) {
-    HomeBoard b = before(n, program);
+    Board b = before(n, program);
     Bench.due(name, Bench.trace(b, trace.split(" ").length), trace);
     Bench.due(name + ": stolen", b.stolen(), stolen);
   }
@@ -128,7 +128,7 @@ public final class StolenTest {
 
   /** The picture chip's flag of line 0 stands; the code before the interrupt clears I. */
   private static void interrupted(int n, String trace, int stolen) {
-    HomeBoard b = new HomeBoard();
+    Board b = new Board();
     Bench.write(b, Bench.PICTURE + 5, 1);
     Bench.write(b, CONTROL, 17);
     Bench.runTo(b, BAD_LINE - 1, 0);
@@ -152,7 +152,7 @@ public final class StolenTest {
     goes("PULL", 2, "r1024 r1025 " + ELEVEN + " r511 r256", 11, 104);
     goes("PULL, later", 3, "r1024 r1025 r511 " + ELEVEN + " r256", 11, 104);
     goes("nothing", 1, "r1024 " + ELEVEN + " r1025", 11, 234);
-    HomeBoard crossing = before(6, 162, 1, 189, 255, 6);
+    Board crossing = before(6, 162, 1, 189, 255, 6);
     Bench.due("LDA LONG X over", Bench.trace(crossing, 18),
         "r1024 r1025 r1026 r1027 r1028 r1536 " + ELEVEN + " r1792");
   }
