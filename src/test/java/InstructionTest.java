@@ -1,4 +1,4 @@
-/** Each instruction access by access (promises 6, 9, 13): where it reads and writes, and what it leaves. */
+/** "Terms", INSTRUCTIONS (promises 6, 9, 13), access by access: where they read and write, and what they leave. */
 public final class InstructionTest {
   private static final int AT = 1024;
 
@@ -16,10 +16,21 @@ public final class InstructionTest {
     calls();
     returns();
     returnsFromInterrupt();
+    flagsFromTheStack();
     pushesAndPulls();
+    stackWrapsOfCall();
+    stackWrapsOfReturn();
+    stackWrapsOfReturnFromInterrupt();
+    stackWrapsOfPushAndPull();
+    comparesOfXAndY();
     singles();
     pWraps();
+    pIsNotCut();
     Bench.done();
+  }
+
+  private static void part(String sentence) {
+    Bench.part("Terms, INSTRUCTIONS: '" + sentence + "'");
   }
 
   /** A board that has run the prefix (instructions of two cycles), with the code at 1024. */
@@ -49,6 +60,7 @@ public final class InstructionTest {
   }
 
   private static void shorts() {
+    part("m 1 SHORT: a byte is read, it is the address");
     int[] codes = {5, 37, 69, 101, 165, 197, 229};
     String[] states = {
       "A252 X7 Y3 S255 F132", "A16 X7 Y3 S255 F4", "A236 X7 Y3 S255 F132", "A12 X7 Y3 S255 F5",
@@ -62,6 +74,7 @@ public final class InstructionTest {
   }
 
   private static void longs() {
+    part("m 3 LONG: two bytes, the address, the low one first");
     int[] codes = {13, 45, 77, 109, 173, 205, 237};
     String[] states = {
       "A255 X7 Y3 S255 F132", "A0 X7 Y3 S255 F6", "A255 X7 Y3 S255 F132", "A255 X7 Y3 S255 F132",
@@ -78,6 +91,7 @@ public final class InstructionTest {
   }
 
   private static void longX() {
+    part("if low + X is above 255 or it is STA, the access with the true address follows");
     Board same = ready(start(1, 15, 0), 189, 240, 6);
     same.poke(1536 + 255, 33);
     follows("LONG X, 255", same, "r1024 r1025 r1026 r1791", "A33 X15 Y0 S255 F4 P1027");
@@ -106,6 +120,7 @@ public final class InstructionTest {
   }
 
   private static void owns() {
+    part("m 2 OWN: the byte itself is the operand");
     own("ORA", 9, 129, "A195 X70 Y80 S255 F132");
     own("AND", 41, 129, "A0 X70 Y80 S255 F6");
     own("EOR", 73, 66, "A0 X70 Y80 S255 F6");
@@ -132,6 +147,7 @@ public final class InstructionTest {
   }
 
   private static void stores() {
+    part("a write of A for STA; 134 STX, 132 STY: SHORT");
     String state = "A130 X16 Y77 S255 F132";
     stored("STA SHORT", 130, 200, "r1024 r1025 w200", state + " P1026", 133, 200);
     stored("STX SHORT", 16, 200, "r1024 r1025 w200", state + " P1026", 134, 200);
@@ -153,6 +169,7 @@ public final class InstructionTest {
   }
 
   private static void changes() {
+    part("230 INC, 198 DEC: .. a read, a write of what was read, a write of that plus or minus 1, Z and N by it");
     change("INC", 230, 5, 6);
     change("INC to 128", 230, 127, 128);
     change("INC to 0", 230, 255, 0);
@@ -190,6 +207,7 @@ public final class InstructionTest {
 
   /** Each branch with its flag clear and set; V comes from an ADC. */
   private static void branches() {
+    part("16 N clear, 48 N set, 80 V clear, 112 V set, 144 C clear, 176 C set, 208 Z clear, 240 Z set");
     int[] codes = {16, 48, 80, 112, 144, 176, 208, 240};
     int[][] clear = {start(1, 1, 1), start(1, 1, 1), start(1, 1, 1), start(1, 1, 1),
         {24}, {24}, start(1, 1, 1), start(1, 1, 1)};
@@ -210,6 +228,7 @@ public final class InstructionTest {
 
   /** The flags come from the stack, by RETURN FROM INTERRUPT. */
   private static void branchesLookAtOneFlag() {
+    part("BRANCH if it is so: whatever the other flags are");
     int[] codes = {16, 48, 80, 112, 144, 176, 208, 240};
     int[] looked = {128, 128, 64, 64, 1, 1, 2, 2};
     for (int i = 0; i < 8; i++) {
@@ -227,6 +246,7 @@ public final class InstructionTest {
   }
 
   private static void branchBytes() {
+    part("(128 .. 255 are 256 less), and if the sum needs another high byte, a read at P with the new low byte and the old high one");
     branchFrom(1024, 0, "1025 1026 1026 1027", "r1024 r1025 r1026 r1026");
     branchFrom(1024, 127, "1025 1026 1153 1154", "r1024 r1025 r1026 r1153");
     branchFrom(1150, 127, "1151 1152 1279 1280", "r1150 r1151 r1152 r1279");
@@ -258,11 +278,13 @@ public final class InstructionTest {
   }
 
   private static void jumps() {
+    part("76 JUMP: two bytes, which make P");
     follows("JUMP", ready(start(1, 2, 3), 76, 5, 6), "r1024 r1025 r1026", "A1 X2 Y3 S255 F4 P1541");
     Bench.due("JUMP: P", Bench.follow(ready(start(1, 2, 3), 76, 5, 230), 5, 3), "1025 1026 58885");
   }
 
   private static void calls() {
+    part("32 CALL");
     Board b = ready(start(1, 2, 3), 32, 5, 6);
     follows("CALL", b, "r1024 r1025 r511 w511 w510 r1026", "A1 X2 Y3 S253 F4 P1541");
     Bench.due("CALL: high", b.ram(511), 4);
@@ -283,6 +305,7 @@ public final class InstructionTest {
   }
 
   private static void returns() {
+    part("96 RETURN");
     Board b = ready(start(1, 2, 3), 96);
     b.poke(256, 5);
     b.poke(257, 230);
@@ -299,6 +322,7 @@ public final class InstructionTest {
   }
 
   private static void returnsFromInterrupt() {
+    part("64 RETURN FROM INTERRUPT .. changes P's bytes one by one");
     Board b = fromInterrupt();
     follows("RETURN FROM INTERRUPT", b, "r1024 r1025 r511 r256 r257 r258", "A1 X2 Y3 S2 F207 P58885");
     Bench.due("RETURN FROM INTERRUPT: P", Bench.follow(fromInterrupt(), 5, 6), "1025 1025 1025 1025 1029 58885");
@@ -317,6 +341,7 @@ public final class InstructionTest {
   }
 
   private static void pushesAndPulls() {
+    part("72 PUSH A, 104 PULL A");
     Board b = ready(start(129, 2, 3), 72);
     b.run(2);
     Bench.due("PUSH: S before the write", b.register(3), 255);
@@ -338,6 +363,7 @@ public final class InstructionTest {
   }
 
   private static void singles() {
+    part("With one read at P behind the code");
     single("C cleared", 24, Bench.bytes(169, 5, 56), "A5 X0 Y0 S255 F4");
     single("C set", 56, start(5, 6, 7), "A5 X6 Y7 S255 F5");
     single("I cleared", 88, start(5, 6, 7), "A5 X6 Y7 S255 F0");
@@ -378,11 +404,119 @@ public final class InstructionTest {
     Bench.due(name + ": the code alone changes nothing", Bench.state(b), before);
   }
 
+  private static void flagsFromTheStack() {
+    part("a read at 256 + S (the flags, without 32 and 16)");
+    for (int flags = 0; flags < 256; flags++) {
+      Board b = Bench.board(64);
+      b.poke(256, flags);
+      b.run(4);
+      Bench.due("flags " + flags, b.register(4), flags & 207);
+    }
+  }
+
+  /** A board whose S is as told (0 to 4 by pulls, 252 to 255 by pushes), with the code at 1024. */
+  private static Board stacked(int s, int... code) {
+    int moves = s < 128 ? s + 1 : 255 - s;
+    int[] prefix = new int[moves];
+    java.util.Arrays.fill(prefix, s < 128 ? 104 : 72);
+    Board b = Bench.boardAt(AT - moves, prefix);
+    Bench.pokeAll(b, AT, code);
+    if (moves > 0) {
+      b.run(moves * (s < 128 ? 4 : 3));
+    }
+    Bench.due("S before it", b.register(3), s);
+    Bench.due("P before it", b.register(5), AT);
+    return b;
+  }
+
+  private static void wrap(String name, Board b, String trace, int s) {
+    Bench.due(name, Bench.trace(b, trace.split(" ").length), trace);
+    Bench.due(name + ": S", b.register(3), s);
+  }
+
+  private static void stackWrapsOfCall() {
+    part("32 CALL: .. at 256 + S, which falls each time; S wraps");
+    wrap("S 255", stacked(255, 32, 5, 6), "r1024 r1025 r511 w511 w510 r1026", 253);
+    wrap("S 0", stacked(0, 32, 5, 6), "r1024 r1025 r256 w256 w511 r1026", 254);
+    wrap("S 1", stacked(1, 32, 5, 6), "r1024 r1025 r257 w257 w256 r1026", 255);
+    wrap("S 2", stacked(2, 32, 5, 6), "r1024 r1025 r258 w258 w257 r1026", 0);
+  }
+
+  private static void stackWrapsOfReturn() {
+    part("96 RETURN: .. S grows; S wraps");
+    Board b = stacked(255, 96);
+    Bench.pokeAll(b, 256, 7, 6);
+    wrap("S 255", b, "r1024 r1025 r511 r256 r257 r1543", 1);
+    Board c = stacked(254, 96);
+    c.poke(511, 7);
+    c.poke(256, 6);
+    wrap("S 254", c, "r1024 r1025 r510 r511 r256 r1543", 0);
+    Board d = stacked(253, 96);
+    d.poke(510, 7);
+    d.poke(511, 6);
+    wrap("S 253", d, "r1024 r1025 r509 r510 r511 r1543", 255);
+  }
+
+  private static void stackWrapsOfReturnFromInterrupt() {
+    part("64 RETURN FROM INTERRUPT: .. S grows; S wraps");
+    wrap("S 255", stacked(255, 64), "r1024 r1025 r511 r256 r257 r258", 2);
+    wrap("S 254", stacked(254, 64), "r1024 r1025 r510 r511 r256 r257", 1);
+    wrap("S 253", stacked(253, 64), "r1024 r1025 r509 r510 r511 r256", 0);
+    wrap("S 252", stacked(252, 64), "r1024 r1025 r508 r509 r510 r511", 255);
+  }
+
+  private static void stackWrapsOfPushAndPull() {
+    part("72 PUSH A: .. S falls; 104 PULL A: .. S grows; S wraps");
+    wrap("PUSH, S 0", stacked(0, 72), "r1024 r1025 w256", 255);
+    wrap("PUSH, S 1", stacked(1, 72), "r1024 r1025 w257", 0);
+    wrap("PUSH, S 255", stacked(255, 72), "r1024 r1025 w511", 254);
+    wrap("PULL, S 255", stacked(255, 104), "r1024 r1025 r511 r256", 0);
+    wrap("PULL, S 254", stacked(254, 104), "r1024 r1025 r510 r511", 255);
+    wrap("PULL, S 0", stacked(0, 104), "r1024 r1025 r256 r257", 1);
+  }
+
+  private static void comparesOfXAndY() {
+    part("224 CPX, 192 CPY: OWN, as .. CMP: Z and N by the difference modulo 256, C if it is not less");
+    int[][] rows = {{0, 0, 3}, {0, 1, 128}, {0, 255, 0}, {255, 255, 3}, {255, 0, 129}, {255, 254, 1},
+        {127, 128, 128}, {128, 127, 1}, {128, 0, 129}, {0, 128, 128}, {0, 129, 0}};
+    for (int[] row : rows) {
+      Board x = ready(start(0, row[0], 0), 224, row[1]);
+      x.run(2);
+      Bench.due("CPX " + row[0] + ", " + row[1], x.register(4), 4 + row[2]);
+      Bench.due("X stays", x.register(1), row[0]);
+      Board y = ready(start(0, 0, row[0]), 192, row[1]);
+      y.run(2);
+      Bench.due("CPY " + row[0] + ", " + row[1], y.register(4), 4 + row[2]);
+      Bench.due("Y stays", y.register(2), row[0]);
+    }
+  }
+
   private static void pWraps() {
+    part("P grows by 1, as with each byte of the instruction that is read: behind 65535 comes 0");
     Board b = Bench.boardAt(65535);
     b.burn(2, 1023, 169);
     b.poke(0, 7);
     Bench.due("P behind 65535", Bench.follow(b, 5, 2), "0 1");
     Bench.due("A", b.register(0), 7);
+    Board c = Bench.boardAt(65534);
+    c.burn(2, 1022, 173);
+    c.burn(2, 1023, 200);
+    c.poke(200, 9);
+    Bench.due("an instruction over the end", Bench.follow(c, 5, 4), "65535 0 1 1");
+    Bench.due("A", c.register(0), 9);
+    Board jam = Bench.boardAt(65535);
+    jam.burn(2, 1023, Bench.JAM);
+    jam.run(1);
+    Bench.due("P behind a code that jams", jam.register(5), 0);
+    Bench.due("a jump to 65535", Bench.follow(ready(start(0, 0, 0), 76, 255, 255), 5, 4), "1025 1026 65535 0");
+  }
+
+  private static void pIsNotCut() {
+    part("P, an address of 16 bits");
+    Board b = Bench.boardAt(8190);
+    b.burn(2, 1022, 234);
+    b.burn(2, 1023, 234);
+    b.poke(0, 234);
+    Bench.due("P goes on behind 8191", Bench.follow(b, 5, 5), "8191 8191 8192 8192 8193");
   }
 }

@@ -1,4 +1,4 @@
-/** Promise 16: when an interrupt begins, what it does, and how many are counted. */
+/** "Terms", INTERRUPT, and promise 16: when one begins, what it does, and how many are counted. */
 public final class InterruptTest {
   private static final int RASTER = Bench.PICTURE + 1;
   private static final int FLAG = Bench.PICTURE + 4;
@@ -7,9 +7,14 @@ public final class InterruptTest {
 
   public static void main(String[] args) {
     sequence();
+    flagsArePushed();
     stackWraps();
     notWithI();
+    iFromTheStack();
+    notWithoutFlagAndEnable();
+    flagOrEnableOfNow();
     eachSource();
+    allSourcesAtOnce();
     againAndAgain();
     lookedAtWithTheFirstAccess();
     onlyBetweenInstructions();
@@ -18,6 +23,10 @@ public final class InterruptTest {
     countSincePower();
     jammed();
     Bench.done();
+  }
+
+  private static void part(String sentence) {
+    Bench.part("promise 16 and Terms, INTERRUPT: '" + sentence + "'");
   }
 
   /** The flag of line 0 stands and is enabled; I is set. */
@@ -29,6 +38,7 @@ public final class InterruptTest {
   }
 
   private static void sequence() {
+    part("seven accesses are made: reads at P and P, writes of P's high byte, its low byte, and the flags .. reads at 8190 and 8191, which make P");
     Board b = asked(56, 248, 169, 200, 88, 234);
     b.run(8);
     Bench.due("before", b.interrupts(), 0);
@@ -58,17 +68,63 @@ public final class InterruptTest {
     return b;
   }
 
+  /** RETURN FROM INTERRUPT takes the flags from the stack, and the interrupt puts them there again. */
+  private static void flagsArePushed() {
+    part("writes of .. the flags (with 32)");
+    for (int flags = 0; flags < 256; flags++) {
+      if ((flags & 4) == 0) {
+        Board b = asked(64);
+        Bench.pokeAll(b, 256, flags, 0, 6);
+        b.run(6 + 7);
+        Bench.due("flags " + flags, b.ram(256), flags & 203 | 32);
+        Bench.due("flags behind it", b.register(4), flags & 203 | 4);
+      }
+    }
+  }
+
   private static void stackWraps() {
-    Board b = asked(104, 88, 234);
-    b.run(6);
-    Bench.due("S wraps", Bench.trace(b, 7), "r1026 r1026 w256 w511 w510 r8190 r8191");
-    Bench.due("S", b.register(3), 253);
+    part("each at 256 + S (which falls by 1 each time) .. S wraps");
+    String[] writes = {"w511 w510 w509", "w256 w511 w510", "w257 w256 w511", "w258 w257 w256", "w259 w258 w257"};
+    for (int pulls = 0; pulls < 5; pulls++) {
+      int[] program = {104, 104, 104, 104, 88, 234};
+      int first = 4 - pulls;
+      Board b = asked(program);
+      Bench.restart(b, Bench.START + first);
+      b.run(4 * pulls + 2);
+      Bench.due("behind " + pulls + " pulls", Bench.trace(b, 7), "r1029 r1029 " + writes[pulls] + " r8190 r8191");
+      Bench.due("S", b.register(3), 252 + pulls & 255);
+      Bench.due("P's high byte", b.ram(256 + (255 + pulls & 255)), 4);
+      Bench.due("P's low byte", b.ram(256 + (254 + pulls & 255)), 5);
+      Bench.due("the flags", b.ram(256 + (253 + pulls & 255)), pulls == 0 ? 32 : 34);
+    }
   }
 
   private static void notWithI() {
+    part("and I is not set");
     Board b = asked(234, 234, 76, 0, 4);
     b.run(500);
     Bench.due("with I set", b.interrupts(), 0);
+    Board again = asked(234, 88, 120, 234);
+    Bench.due("between 88 and 120", Bench.trace(again, 6), "r1024 r1025 r1025 r1026 r1026 r1026");
+    Board inHandler = asked(88, 234);
+    Bench.pokeAll(inHandler, Bench.HANDLER, 234, 76, 0, 3);
+    inHandler.run(500);
+    Bench.due("not in the handler, as it set I", inHandler.interrupts(), 1);
+  }
+
+  private static void iFromTheStack() {
+    part("and I is not set: as RETURN FROM INTERRUPT leaves it");
+    Board clear = asked(64);
+    Bench.pokeAll(clear, 256, 0, 0, 6);
+    Bench.due("clear", Bench.trace(clear, 9), "r1024 r1025 r511 r256 r257 r258 r1536 r1536 w258");
+    Board set = asked(64);
+    Bench.pokeAll(set, 256, 4, 0, 6);
+    set.poke(1536, 234);
+    Bench.due("set", Bench.trace(set, 9), "r1024 r1025 r511 r256 r257 r258 r1536 r1537 r1537");
+  }
+
+  private static void notWithoutFlagAndEnable() {
+    part("the picture chip's flag and ENABLE are set");
     Board c = new Board();
     c.run(1);
     Bench.restart(c, Bench.START, 88, 76, 1, 4);
@@ -81,9 +137,41 @@ public final class InterruptTest {
     Bench.restart(d, Bench.START, 88, 76, 1, 4);
     d.run(500);
     Bench.due("enabled, no flag", d.interrupts(), 0);
+    Board e = asked(88, 234);
+    e.run(9);
+    Bench.due("both", e.interrupts(), 1);
+  }
+
+  /** What a write changes counts for the instruction that begins in the next cycle. */
+  private static void flagOrEnableOfNow() {
+    part("All this is looked at when the first access is made");
+    Board cleared = asked(169, 1, 141, FLAG & 255, FLAG >> 8, 88, 234, 76, 6, 4);
+    cleared.run(200);
+    Bench.due("the flag was cleared", cleared.interrupts(), 0);
+    Board disabled = asked(169, 0, 141, ENABLE & 255, ENABLE >> 8, 88, 234, 76, 6, 4);
+    disabled.run(200);
+    Bench.due("the ENABLE was cleared", disabled.interrupts(), 0);
+    Board enabled = Bench.board(88, 169, 1, 141, ENABLE & 255, ENABLE >> 8, 234);
+    Bench.due("the ENABLE is set last", Bench.trace(enabled, 11),
+        "r1024 r1025 r1025 r1026 r1027 r1028 r1029 w6661 r1030 r1030 w511");
+  }
+
+  private static void allSourcesAtOnce() {
+    part("the picture chip's flag and ENABLE are set or a flag of the interface chip that is enabled is: one or all");
+    Board b = new Board();
+    Bench.write(b, ENABLE, 1);
+    Bench.writeAll(b, Bench.INTERFACE + 4, 0, 0, 0, 0);
+    Bench.write(b, FLAGS, 131);
+    Bench.writeAll(b, Bench.INTERFACE + 14, 9, 9);
+    Bench.restart(b, Bench.START, 88, 234);
+    b.poke(Bench.HANDLER, Bench.JAM);
+    b.run(100);
+    Bench.due("all three", b.interrupts(), 1);
+    Bench.due("none is cleared by it", b.look(FLAGS) + b.look(FLAG), 131 + 129);
   }
 
   private static void eachSource() {
+    part("or a flag of the interface chip that is enabled is");
     for (int flag = 1; flag <= 2; flag++) {
       for (int enabled = 0; enabled < 4; enabled++) {
         Board b = new Board();
@@ -102,6 +190,7 @@ public final class InterruptTest {
 
   /** A handler that clears nothing is entered again behind its return. */
   private static void againAndAgain() {
+    part("when an instruction begins: behind a return, too");
     Board b = asked(88, 234, 234, 234, 234, 234);
     b.poke(Bench.HANDLER, 64);
     b.run(2);
@@ -118,6 +207,7 @@ public final class InterruptTest {
 
   /** The flag is set in cycle 0 before the processor: an instruction that begins there is put off. */
   private static void lookedAtWithTheFirstAccess() {
+    part("All this is looked at when the first access is made");
     for (int early = 0; early < 2; early++) {
       Board b = new Board();
       Bench.write(b, ENABLE, 1);
@@ -157,6 +247,7 @@ public final class InterruptTest {
   }
 
   private static void onlyBetweenInstructions() {
+    part("when an instruction begins");
     Board b = new Board();
     Bench.write(b, ENABLE, 1);
     Bench.write(b, FLAG, 1);
@@ -168,6 +259,7 @@ public final class InterruptTest {
   }
 
   private static void vectorByTheMap() {
+    part("reads at 8190 and 8191, which make P: by the map");
     Board b = asked(169, 4, 133, 1, 88, 234);
     b.poke(8190, 33);
     b.poke(8191, 225);
@@ -176,15 +268,25 @@ public final class InterruptTest {
   }
 
   private static void farP() {
+    part("writes of P's high byte, its low byte: of 16 bits");
     Board b = new Board();
     Bench.write(b, ENABLE, 1);
     Bench.restart(b, 512 + 8192 * 7, 88, 234);
     b.run(9);
     Bench.due("P's high byte of 8 bits", b.ram(511), 2 + 224);
     Bench.due("P's low byte", b.ram(510), 1);
+    Board last = new Board();
+    Bench.write(last, ENABLE, 1);
+    Bench.restart(last, 65534);
+    last.burn(2, 1022, 88);
+    last.run(9);
+    Bench.due("P 65535: high byte", last.ram(511), 255);
+    Bench.due("P 65535: low byte", last.ram(510), 255);
+    Bench.due("P behind it", last.register(5), 256 * 3 + 88);
   }
 
   private static void countSincePower() {
+    part("How many interrupts began since power()");
     Board b = begun();
     b.run(3);
     Bench.due("one", b.interrupts(), 1);
@@ -194,6 +296,7 @@ public final class InterruptTest {
   }
 
   private static void jammed() {
+    part("JAM the processor: it makes no access any more");
     Board b = new Board();
     Bench.write(b, RASTER, 20);
     Bench.write(b, FLAG, 1);

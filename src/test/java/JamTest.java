@@ -1,4 +1,4 @@
-/** Promise 10: the codes that are instructions, and that every other code jams. */
+/** "Terms", INSTRUCTIONS, and promise 10: the codes that are instructions, and that every other code jams. */
 public final class JamTest {
   /** How many accesses each code makes when no branch is taken and no X carries; the others jam. */
   private static final int[][] KNOWN = {
@@ -20,8 +20,10 @@ public final class JamTest {
     }
     for (int code = 0; code < 256; code++) {
       if (accesses[code] == 0) {
+        Bench.part("promise 10 and Terms, INSTRUCTIONS: 'All other codes JAM the processor'");
         jams(code);
       } else {
+        Bench.part("promise 10 and Terms, INSTRUCTIONS: 'All other codes', not this one");
         makes(code, accesses[code]);
       }
     }

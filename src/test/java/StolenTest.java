@@ -1,4 +1,4 @@
-/** Promise 15: reads wait while the bus is wanted, writes do not. */
+/** "Terms", THE PROCESSOR, and promise 15: reads wait while the bus is wanted, writes do not. */
 public final class StolenTest {
   private static final int CONTROL = Bench.PICTURE;
   private static final int BAD_LINE = 9;
@@ -14,7 +14,12 @@ public final class StolenTest {
     stackWritesGoOn();
     interruptWritesGoOn();
     readsOfEachKindWait();
+    waitingReadIsMadeLate();
     Bench.done();
+  }
+
+  private static void part(String sentence) {
+    Bench.part("promise 15 and Terms, THE PROCESSOR: '" + sentence + "'");
   }
 
   /** A board that is on, with bad lines 9, 17 and 25, the beam n cycles before cycle 3 of line 9. */
@@ -32,6 +37,7 @@ public final class StolenTest {
   }
 
   private static void cyclesOfABadLine() {
+    part("If the bus is wanted and the access is a read, it is not made in this cycle, but waits");
     Board b = before(3, 76, 0, 4);
     for (int cycle = 0; cycle < 24; cycle++) {
       boolean wanted = cycle >= 3 && cycle <= 13;
@@ -45,6 +51,7 @@ public final class StolenTest {
   }
 
   private static void onlyBadLines() {
+    part("If the bus is wanted: in bad lines alone");
     for (int shift = 0; shift < 8; shift++) {
       Board b = new Board();
       Bench.write(b, CONTROL, 16 + shift);
@@ -64,6 +71,7 @@ public final class StolenTest {
   }
 
   private static void countsSincePower() {
+    part("How many accesses waited, since power()");
     Board b = before(0, 76, 0, 4);
     b.run(5);
     Bench.due("stolen", b.stolen(), 5);
@@ -75,6 +83,7 @@ public final class StolenTest {
   }
 
   private static void jammedWaitsForNothing() {
+    part("it makes no access any more, and none waits");
     Board b = before(1, Bench.JAM);
     Bench.due("run(24)", b.run(24), 1);
     Bench.due("stolen", b.stolen(), 0);
@@ -94,6 +103,7 @@ public final class StolenTest {
   }
 
   private static void storesGoOn() {
+    part("and the access is a read: writes of STA, STX and STY do not wait");
     String rest = " - - - - - - - - - -";
     goes("STA SHORT", 2, "r1024 r1025 w200" + rest + " r1026", 10, 133, 200, 234);
     goes("STX SHORT", 2, "r1024 r1025 w200" + rest + " r1026", 10, 134, 200, 234);
@@ -106,12 +116,14 @@ public final class StolenTest {
   }
 
   private static void changeGoesOn() {
+    part("and the access is a read: both writes of INC and DEC do not wait");
     goes("INC", 3, "r1024 r1025 r200 w200 w200 - - - - - - - - - r1026", 9, 230, 200, 234);
     goes("DEC", 4, "r1024 r1025 r200 w200 w200 - - - - - - - - - - r1026", 10, 198, 200, 234);
     goes("INC, its read waits", 2, "r1024 r1025 " + ELEVEN + " r200 w200 w200", 11, 230, 200);
   }
 
   private static void stackWritesGoOn() {
+    part("and the access is a read: writes of CALL and PUSH do not wait");
     goes("CALL", 3, "r1024 r1025 r511 w511 w510 - - - - - - - - - r1026", 9, 32, 0, 6);
     goes("CALL, its read waits", 2, "r1024 r1025 " + ELEVEN + " r511 w511 w510 r1026", 11, 32, 0, 6);
     goes("CALL, its last read waits", 5, "r1024 r1025 r511 w511 w510 " + ELEVEN + " r1026", 11, 32, 0, 6);
@@ -120,6 +132,7 @@ public final class StolenTest {
   }
 
   private static void interruptWritesGoOn() {
+    part("and the access is a read: the three writes of an interrupt do not wait");
     interrupted(2, "r1025 r1025 w511 w510 w509 - - - - - - - - r8190 r8191 r768", 8);
     interrupted(1, "r1025 " + ELEVEN + " r1025 w511 w510 w509 r8190 r8191 r768", 11);
     interrupted(5, "r1025 r1025 w511 w510 w509 " + ELEVEN + " r8190 r8191 r768", 11);
@@ -140,7 +153,26 @@ public final class StolenTest {
     Bench.due("interrupt " + n + ": how many", b.interrupts(), 1);
   }
 
+  /** What is read is what stands there when the bus is free again. */
+  private static void waitingReadIsMadeLate() {
+    part("it is not made in this cycle, but waits");
+    Board b = before(2, 165, 200);
+    b.run(2 + 10);
+    b.poke(200, 55);
+    Bench.due("nothing while it waits", Bench.state(b), "A0 X0 Y0 S255 F4 P1026");
+    b.run(1);
+    Bench.due("the last cycle that it waits", Bench.state(b), "A0 X0 Y0 S255 F4 P1026");
+    b.run(1);
+    Bench.due("made", Bench.state(b), "A55 X0 Y0 S255 F4 P1026");
+    Board code = before(0, 234);
+    code.run(11);
+    code.poke(Bench.START, 169);
+    code.run(2);
+    Bench.due("a code that waited", Bench.state(code), "A0 X0 Y0 S255 F6 P1026");
+  }
+
   private static void readsOfEachKindWait() {
+    part("and the access is a read: each kind of read waits");
     goes("LDA SHORT", 2, "r1024 r1025 " + ELEVEN + " r200", 11, 165, 200);
     goes("LDA LONG", 3, "r1024 r1025 r1026 " + ELEVEN + " r1536", 11, 173, 0, 6);
     goes("LDA LONG X", 3, "r1024 r1025 r1026 " + ELEVEN + " r1536", 11, 189, 0, 6);
