@@ -15,6 +15,7 @@ public final class InstructionTest {
     jumps();
     calls();
     returns();
+    lastReadOfReturn();
     returnsFromInterrupt();
     flagsFromTheStack();
     pushesAndPulls();
@@ -23,6 +24,7 @@ public final class InstructionTest {
     stackWrapsOfReturnFromInterrupt();
     stackWrapsOfPushAndPull();
     comparesOfXAndY();
+    flagsAreApart();
     singles();
     pWraps();
     pIsNotCut();
@@ -321,6 +323,20 @@ public final class InstructionTest {
     Bench.due("CALL and RETURN", Bench.state(both), "A1 X2 Y3 S255 F4 P1027");
   }
 
+  private static void lastReadOfReturn() {
+    part("96 RETURN: .. a read at P, and P grows by 1: it clears what reading clears");
+    int flags = Bench.INTERFACE + 13;
+    Board b = new Board();
+    Bench.writeAll(b, Bench.INTERFACE + 4, 0, 0);
+    Bench.write(b, Bench.INTERFACE + 14, 9);
+    Bench.pokeAll(b, 256, flags & 255, flags >> 8);
+    Bench.restart(b, AT, 96);
+    b.run(5);
+    Bench.due("before it", b.look(flags), 1);
+    b.run(1);
+    Bench.due("behind it", b.look(flags), 0);
+  }
+
   private static void returnsFromInterrupt() {
     part("64 RETURN FROM INTERRUPT .. changes P's bytes one by one");
     Board b = fromInterrupt();
@@ -473,6 +489,33 @@ public final class InstructionTest {
     wrap("PULL, S 255", stacked(255, 104), "r1024 r1025 r511 r256", 0);
     wrap("PULL, S 254", stacked(254, 104), "r1024 r1025 r510 r511", 255);
     wrap("PULL, S 0", stacked(0, 104), "r1024 r1025 r256 r257", 1);
+  }
+
+  /** Each row: the flags that may change, and the codes that may change them. */
+  private static final int[][] CHANGING = {
+    {1, 24, 56}, {4, 88, 120}, {8, 216, 248},
+    {2 + 128, 9, 41, 73, 169, 162, 160, 5, 37, 69, 165, 13, 45, 77, 173, 29, 61, 93, 189, 230, 198, 104,
+        170, 138, 168, 152, 232, 200, 202, 136},
+    {1 + 2 + 128, 201, 197, 205, 221, 224, 192, 10, 74},
+    {1 + 2 + 64 + 128, 105, 101, 109, 125, 233, 229, 237, 253},
+    {0, 133, 141, 157, 134, 132, 16, 48, 80, 112, 144, 176, 208, 240, 76, 32, 96, 72, 234},
+  };
+
+  /** All flags but I are set or clear before the code; RETURN FROM INTERRUPT takes them from the stack. */
+  private static void flagsAreApart() {
+    part("what sets a flag leaves the others");
+    for (int[] row : CHANGING) {
+      for (int i = 1; i < row.length; i++) {
+        for (int flags : new int[] {0, 207, 4, 203}) {
+          Board b = Bench.board(64);
+          Bench.pokeAll(b, 256, flags, 0, 6);
+          Bench.pokeAll(b, 1536, row[i], 60, 0);
+          Bench.due("run", b.run(6 + 2), 8);
+          b.run(4);
+          Bench.due("code " + row[i] + " with flags " + flags, b.register(4) & ~row[0], flags & ~row[0]);
+        }
+      }
+    }
   }
 
   private static void comparesOfXAndY() {

@@ -46,6 +46,7 @@ public final class InterfaceTest {
     controls();
     cascadeOfAIsNone();
     othersReadNothing();
+    registersAreApart();
     countsBeforeTheProcessor();
     cascade();
     cascadeNeedsARunning();
@@ -533,6 +534,34 @@ public final class InterfaceTest {
     Bench.due("A", count(b, 0), 65535);
     Bench.due("B", count(b, 1), 65535);
     Bench.due("ROWS", b.look(ROWS), 0);
+  }
+
+  /** Both flags are set, A's is enabled; the latches, which are not given back, are known by reloading. */
+  private static void registersAreApart() {
+    part("Registers: .. each is written alone");
+    int[] held = {33, 255, 0, 0, 1, 2, 3, 4, 0, 0, 0, 0, 0, 131, ONCE, ONCE};
+    for (int which = 0; which < 16; which++) {
+      for (int value : new int[] {0, 255, 170, 85}) {
+        Board b = flagged(3);
+        Bench.write(b, FLAGS, 129);
+        Bench.write(b, ROWS, 33);
+        Bench.writeAll(b, LOW[0], 1, 2, 3, 4);
+        Bench.write(b, Bench.INTERFACE + which, value);
+        for (int other = 0; other < 16; other++) {
+          boolean ofTimer = which >= 14 ? other / 2 == which - 12 : which >= 4 && which < 8 && other / 2 == which / 2;
+          if (other != which && !ofTimer) {
+            Bench.due("register " + other + " behind " + value + " in register " + which,
+                b.look(Bench.INTERFACE + other), held[other]);
+          }
+        }
+        Bench.write(b, CONTROL[0], RELOAD);
+        Bench.write(b, CONTROL[1], RELOAD);
+        for (int other = 4; other < 8; other++) {
+          Bench.due("latch " + other + " behind " + value + " in register " + which,
+              b.look(Bench.INTERFACE + other), other == which ? value : held[other]);
+        }
+      }
+    }
   }
 
   /** What a cycle's access writes counts from the next cycle on; what it reads, the timers have changed. */

@@ -7,6 +7,7 @@ public final class InterruptTest {
 
   public static void main(String[] args) {
     sequence();
+    bothReadsAtP();
     flagsArePushed();
     stackWraps();
     notWithI();
@@ -66,6 +67,22 @@ public final class InterruptTest {
     Board b = asked(88, 234);
     b.run(2);
     return b;
+  }
+
+  /** P is where reading clears the timers' flags; A's is set in the cycle of one of the first accesses. */
+  private static void bothReadsAtP() {
+    part("reads at P and P");
+    for (int cycle = 0; cycle < 3; cycle++) {
+      Board b = new Board();
+      Bench.write(b, ENABLE, 1);
+      Bench.writeAll(b, Bench.INTERFACE + 4, 7 + cycle, 0);
+      Bench.write(b, Bench.INTERFACE + 14, 9);
+      Bench.pokeAll(b, 256, 0, FLAGS & 255, FLAGS >> 8);
+      Bench.restart(b, Bench.START, 64);
+      b.run(6);
+      Bench.due("the reads", Bench.trace(b, 3), "r6733 r6733 w258");
+      Bench.due("flag of access " + (cycle + 1), b.look(FLAGS), cycle < 2 ? 0 : 1);
+    }
   }
 
   /** RETURN FROM INTERRUPT takes the flags from the stack, and the interrupt puts them there again. */

@@ -22,6 +22,7 @@ public final class PictureTest {
     enable();
     othersReadNothing();
     allAreNothingAtFirst();
+    registersAreApart();
     flagOfEachLine();
     flagOfNoLine();
     flagIsSetInCycleZeroAlone();
@@ -189,6 +190,31 @@ public final class PictureTest {
     b.run(24);
     Bench.due("the line to compare is 0", b.look(FLAG), 1);
     Bench.due("BORDER is 0", b.point(0, 0), 0);
+  }
+
+  /** The line to compare, which is not given back, is known by the flag that it sets. */
+  private static void registersAreApart() {
+    part("Registers: .. each is written alone");
+    int[] held = {6, 0, 11, 12, 1, 0, 13, 0, 0, 0, 0, 0, 0, 0, 0, 0};
+    for (int which = 0; which < 16; which++) {
+      for (int value : new int[] {0, 255, 170, 85}) {
+        Board b = new Board();
+        Bench.writeAll(b, Bench.PICTURE, 6, 30, 11, 12, 0, 0, 13);
+        Bench.write(b, Bench.PICTURE + which, value);
+        String name = " behind " + value + " in register " + which;
+        for (int other = 0; other < 16; other++) {
+          if (other != 1 && other != which) {
+            int want = other == 4 && which == 5 && value % 2 == 1 ? 129 : held[other];
+            Bench.due("register " + other + name, b.look(Bench.PICTURE + other), want);
+          }
+        }
+        Bench.write(b, FLAG, 1);
+        Bench.runTo(b, 30, 0);
+        Bench.due("flag before line 30" + name, b.look(FLAG), 0);
+        b.run(1);
+        Bench.due("flag of line 30" + name, b.look(FLAG) % 2, which == 1 ? 0 : 1);
+      }
+    }
   }
 
   private static void flagOfEachLine() {
@@ -527,9 +553,13 @@ public final class PictureTest {
     lineShows("row 2", b, 21, 2, 0);
   }
 
+  /** Behind a row's last glyph line ROM C has the next code's first one, which must not show. */
   private static void idleBehindEightLines() {
     part("when it was 7 the chip is idle");
     Board b = lively(0, 7);
+    for (int k = 0; k < 8; k++) {
+      b.burn(1, 8 * (code(k) % 64) + 8, 255);
+    }
     Bench.runTo(b, 9, 0);
     Bench.write(b, CONTROL, ON + 7);
     Bench.runTo(b, 10, 0);
