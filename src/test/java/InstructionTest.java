@@ -248,7 +248,7 @@ public final class InstructionTest {
   }
 
   private static void branchBytes() {
-    part("(128 .. 255 are 256 less), and if the sum needs another high byte, a read at P with the new low byte and the old high one");
+    part("(128 .. 255 are 256 less), and if the sum needs another high byte, a read at P with .. the old high one");
     branchFrom(1024, 0, "1025 1026 1026 1027", "r1024 r1025 r1026 r1026");
     branchFrom(1024, 127, "1025 1026 1153 1154", "r1024 r1025 r1026 r1153");
     branchFrom(1150, 127, "1151 1152 1279 1280", "r1150 r1151 r1152 r1279");

@@ -39,7 +39,7 @@ public final class InterruptTest {
   }
 
   private static void sequence() {
-    part("seven accesses are made: reads at P and P, writes of P's high byte, its low byte, and the flags .. reads at 8190 and 8191, which make P");
+    part("seven accesses are made: .. then I is set, and reads at 8190 and 8191, which make P");
     Board b = asked(56, 248, 169, 200, 88, 234);
     b.run(8);
     Bench.due("before", b.interrupts(), 0);

@@ -226,27 +226,35 @@ public final class MemoryEdgesTest {
     return place < 128 && isFull ? 255 : 0;
   }
 
+  private static String sentenceOf(int at) {
+    if (at == 1) {
+      return "'1: the port'";
+    }
+    if (at >= 5120 && at <= 6143) {
+      return "'5120 .. 6143: ROM A, if L and H are set'";
+    }
+    if (at >= 7168) {
+      return "'7168 .. 8191: ROM K, if H is set'";
+    }
+    return at >= 6656 ? "'6656 .. 7167: if L or H is set, the REGISTERS if E is set, else ROM C'" : "'All else: RAM'";
+  }
+
   private static int shown(int port, int at) {
     boolean low = port % 2 == 1;
     boolean high = port / 2 % 2 == 1;
     boolean registers = port >= 4;
     if (at == 1) {
-      Bench.part("Terms, MEMORY, READING: '1: the port'");
       return port;
     }
     if (at >= 5120 && at <= 6143) {
-      Bench.part("Terms, MEMORY, READING: '5120 .. 6143: ROM A, if L and H are set'");
       return low && high ? romMark(at) : ramMark(at);
     }
     if (at >= 7168) {
-      Bench.part("Terms, MEMORY, READING: '7168 .. 8191: ROM K, if H is set'");
       return high ? romMark(at) : ramMark(at);
     }
-    if (at >= 6656) {
-      Bench.part("Terms, MEMORY, READING: '6656 .. 7167: if L or H is set, the REGISTERS if E is set, else ROM C'");
-      return !low && !high ? ramMark(at) : registers ? registerMark(at - 6656) : romMark(at);
+    if (at >= 6656 && (low || high)) {
+      return registers ? registerMark(at - 6656) : romMark(at);
     }
-    Bench.part("Terms, MEMORY, READING: 'All else: RAM'");
     return ramMark(at);
   }
 
@@ -265,8 +273,8 @@ public final class MemoryEdgesTest {
         mark(b, at);
       }
       for (int at = first; at < first + SLICE; at++) {
-        int want = shown(port, at);
-        Bench.due("port " + port + ", look(" + at + ")", b.look(at), want);
+        Bench.part("Terms, MEMORY, READING: " + sentenceOf(at));
+        Bench.due("port " + port + ", look(" + at + ")", b.look(at), shown(port, at));
       }
     }
   }
@@ -276,8 +284,8 @@ public final class MemoryEdgesTest {
     Bench.write(b, 1, port);
     for (int at : EDGES) {
       mark(b, at);
-      int want = shown(port, at);
-      Bench.due("port " + port + ", read at " + at, Bench.read(b, at), want);
+      Bench.part("Terms, MEMORY, READING: " + sentenceOf(at));
+      Bench.due("port " + port + ", read at " + at, Bench.read(b, at), shown(port, at));
     }
   }
 

@@ -17,6 +17,7 @@ public final class PromiseEdgesTest {
     newObjectSharesNothing();
     newObjectHasNoP();
     newObjectIsJammed();
+    processorAtFirst();
     burnSetsFirstAndLast();
     burnOfNoSuchRom();
     burnOfNoSuchByte();
@@ -166,6 +167,20 @@ public final class PromiseEdgesTest {
     Bench.due("stolen()", b.stolen(), 0);
     Bench.due("the beam goes on", b.beam(), 40);
     Bench.due("and sets the flag of line 0", b.look(Bench.PICTURE + 4), 1);
+  }
+
+  private static void processorAtFirst() {
+    Bench.part("Terms, THE PROCESSOR: 'S 255 at first, the others 0 .. I alone set at first .. P .. the word at 8188'");
+    Board b = new Board();
+    b.burn(2, 1020, 255);
+    b.burn(2, 1021, 1);
+    b.power();
+    int[] want = {0, 0, 0, 255, 4, 511};
+    for (int which = 0; which < 6; which++) {
+      Bench.due("register(" + which + ")", b.register(which), want[which]);
+    }
+    b.run(1);
+    Bench.due("its first access", b.access(), 511);
   }
 
   private static void burnSetsFirstAndLast() {
